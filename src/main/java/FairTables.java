@@ -206,7 +206,8 @@ public final class FairTables {
 
     public int best() {
         status = FINE;
-        return meetings.worthTogether();
+        meetings.bringUpToDate();
+        return meetings.set.worthTogether();
     }
 
     public int meets(int agent, int editor) {
@@ -214,7 +215,8 @@ public final class FairTables {
         if (status != FINE) {
             return NONE;
         }
-        int hour = meetings.hourOf(agent, editor);
+        meetings.bringUpToDate();
+        int hour = meetings.table.hourOf(agent, editor);
         status = hour == NONE ? THERE_IS_NONE : FINE;
         return hour;
     }
@@ -224,7 +226,8 @@ public final class FairTables {
         if (status != FINE) {
             return NONE;
         }
-        int editor = meetings.editorAt(agent, hour);
+        meetings.bringUpToDate();
+        int editor = meetings.table.editorAt(agent, hour);
         status = editor == NONE ? THERE_IS_NONE : FINE;
         return editor;
     }
@@ -600,8 +603,8 @@ public final class FairTables {
         int editors = 0;
         int hours = FIRST_HOURS;
         private final int[] worths = new int[MOST_PAIRS];
-        private final BestSet set = new BestSet();
-        private final Timetable table = new Timetable();
+        final BestSet set = new BestSet();
+        final Timetable table = new Timetable();
         private boolean upToDate = true;
 
         void changeHours(int many) {
@@ -614,22 +617,7 @@ public final class FairTables {
             upToDate = false;
         }
 
-        int worthTogether() {
-            bringUpToDate();
-            return set.worthTogether();
-        }
-
-        int hourOf(int agent, int editor) {
-            bringUpToDate();
-            return table.hourOf(agent, editor);
-        }
-
-        int editorAt(int agent, int hour) {
-            bringUpToDate();
-            return table.editorAt(agent, hour);
-        }
-
-        private void bringUpToDate() {
+        void bringUpToDate() {
             if (upToDate) {
                 return;
             }
@@ -657,7 +645,7 @@ public final class FairTables {
      * The SET that is BEST for the WORTHS it has been told. When one WORTH changes, the new BEST
      * differs from the old one by one ring of meetings through that pair at most: they leave and
      * enter by turns. The ring may pass the hub, where somebody gets or gives up a free half hour.
-     * So the ring of most gain is sought, and followed if it gains anything.
+     * So the ring of most gain is sought, and turned if it gains anything.
      */
     private static final class BestSet {
         private static final int HUB = MOST_AGENTS + MOST_EDITORS;
@@ -673,6 +661,7 @@ public final class FairTables {
         private final long[] highGains = new long[NODES];
         private final long[] lowGains = new long[NODES];
         private final int[] before = new int[NODES];
+        private final boolean[] bettered = new boolean[NODES];
 
         void startAnew(int newHours) {
             hours = newHours;
@@ -692,41 +681,24 @@ public final class FairTables {
         }
 
         void changeWorth(int pair, int worth) {
-            int old = worths[pair];
+            boolean leaves = chosen[pair];
+            boolean staysBest = leaves ? worth >= worths[pair] : worth <= worths[pair];
             worths[pair] = worth;
-            if (chosen[pair] && worth < old) {
-                leaveIfBetter(pair);
-            } else if (!chosen[pair] && worth > old) {
-                enterIfBetter(pair);
+            if (staysBest) {
+                return;
             }
-        }
-
-        private void leaveIfBetter(int pair) {
-            int agent = agentNode(pair);
-            int editor = editorNode(pair);
-            seekWays(agent, pair);
-            long high = highGains[editor] - highWeight(pair);
-            long low = lowGains[editor] - lowWeight(pair);
-            if (isGain(high, low)) {
-                follow(agent, editor);
-                turn(pair);
-            }
-        }
-
-        private void enterIfBetter(int pair) {
-            int agent = agentNode(pair);
-            int editor = editorNode(pair);
-            // With a free half hour on both sides no exchange can add to the gain: it would have
-            // been a gain before.
-            if (isFree(agent) && isFree(editor)) {
+            int start = leaves ? agentNode(pair) : editorNode(pair);
+            int goal = leaves ? editorNode(pair) : agentNode(pair);
+            if (!leaves && isFree(start) && isFree(goal)) {
+                // Changes among the others can't add to the gain: they would have been a gain before.
                 turn(pair);
                 return;
             }
-            seekWays(editor, pair);
-            long high = highGains[agent] + highWeight(pair);
-            long low = lowGains[agent] + lowWeight(pair);
-            if (isGain(high, low)) {
-                follow(editor, agent);
+            seekWays(start, pair);
+            long high = leaves ? -highWeight(pair) : highWeight(pair);
+            long low = leaves ? -lowWeight(pair) : lowWeight(pair);
+            if (isGain(highGains[goal] + high, lowGains[goal] + low)) {
+                turnWay(start, goal);
                 turn(pair);
             }
         }
@@ -769,67 +741,76 @@ public final class FairTables {
         /** The ways of most gain from a node to all others; the barred pair is not on them. */
         private void seekWays(int start, int barred) {
             Arrays.fill(before, UNREACHED);
-            Arrays.fill(highGains, 0L);
-            Arrays.fill(lowGains, 0L);
-            before[start] = start;
-            boolean better = true;
-            for (int i = 0; better && i < NODES; i++) {
-                better = stepOverPairs(barred);
-                better = stepOverHub() || better;
-            }
-        }
-
-        private boolean stepOverPairs(int barred) {
-            boolean better = false;
-            for (int pair = 0; pair < MOST_PAIRS; pair++) {
-                if (worths[pair] > 0 && pair != barred) {
-                    better = stepOverPair(pair) || better;
+            reach(start, start, 0, 0);
+            boolean goesOn = true;
+            // No ring gains anything, so no way of most gain has more steps than there are nodes.
+            for (int i = 0; goesOn && i < NODES; i++) {
+                goesOn = false;
+                for (int node = 0; node < NODES; node++) {
+                    if (!bettered[node]) {
+                        continue;
+                    }
+                    bettered[node] = false;
+                    goesOn = true;
+                    if (node < MOST_AGENTS) {
+                        stepFromAgent(node, barred);
+                    } else if (node < HUB) {
+                        stepFromEditor(node, barred);
+                    } else {
+                        stepFromHub();
+                    }
                 }
             }
-            return better;
         }
 
-        private boolean stepOverPair(int pair) {
-            int agent = agentNode(pair);
-            int editor = editorNode(pair);
-            if (chosen[pair]) {
-                return step(editor, agent, -highWeight(pair), -lowWeight(pair));
-            }
-            return step(agent, editor, highWeight(pair), lowWeight(pair));
-        }
-
-        private boolean stepOverHub() {
-            boolean better = false;
+        private void stepFromHub() {
             for (int node = 0; node < HUB; node++) {
-                boolean isAgent = node < MOST_AGENTS;
-                boolean mayLose = meetingsOf[node] > 0;
-                if (isAgent ? mayLose : isFree(node)) {
-                    better = step(node, HUB, 0, 0) || better;
-                }
-                if (isAgent ? isFree(node) : mayLose) {
-                    better = step(HUB, node, 0, 0) || better;
+                if (node < MOST_AGENTS ? isFree(node) : meetingsOf[node] > 0) {
+                    step(HUB, node, 0, 0);
                 }
             }
-            return better;
         }
 
-        private boolean step(int from, int to, long high, long low) {
-            if (before[from] == UNREACHED) {
-                return false;
+        private void stepFromAgent(int agent, int barred) {
+            for (int i = 0; i < MOST_EDITORS; i++) {
+                int pair = agent * MOST_EDITORS + i;
+                if (worths[pair] > 0 && !chosen[pair] && pair != barred) {
+                    step(agent, MOST_AGENTS + i, highWeight(pair), lowWeight(pair));
+                }
             }
+            if (meetingsOf[agent] > 0) {
+                step(agent, HUB, 0, 0);
+            }
+        }
+
+        private void stepFromEditor(int editor, int barred) {
+            for (int agent = 0; agent < MOST_AGENTS; agent++) {
+                int pair = agent * MOST_EDITORS + editor - MOST_AGENTS;
+                if (chosen[pair] && pair != barred) {
+                    step(editor, agent, -highWeight(pair), -lowWeight(pair));
+                }
+            }
+            if (isFree(editor)) {
+                step(editor, HUB, 0, 0);
+            }
+        }
+
+        private void step(int from, int to, long high, long low) {
             long newHigh = highGains[from] + high;
             long newLow = lowGains[from] + low;
-            boolean known = before[to] != UNREACHED;
-            if (known && !isGain(newHigh - highGains[to], newLow - lowGains[to])) {
-                return false;
+            if (before[to] == UNREACHED || isGain(newHigh - highGains[to], newLow - lowGains[to])) {
+                reach(from, to, newHigh, newLow);
             }
-            highGains[to] = newHigh;
-            lowGains[to] = newLow;
-            before[to] = from;
-            return true;
         }
 
-        private void follow(int start, int goal) {
+        private void reach(int from, int to, long high, long low) {
+            before[to] = from;
+            highGains[to] = high;
+            lowGains[to] = low;
+            bettered[to] = true;
+        }
+
+        private void turnWay(int start, int goal) {
             int node = goal;
             for (int i = 0; i < NODES && node != start && node != UNREACHED; i++) {
                 int previous = before[node];
