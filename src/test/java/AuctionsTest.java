@@ -23,10 +23,7 @@ public final class AuctionsTest {
     }
 
     private static FairTables fair(int sort, long... limits) {
-        FairTables x = new FairTables();
-        for (int e = 0; e < limits.length; e++) {
-            x.editor();
-        }
+        FairTables x = Fairs.withBooks(limits.length);
         limits(x, sort, limits);
         return x;
     }
@@ -57,6 +54,10 @@ public final class AuctionsTest {
         FairTables y = fair(0, 5, 5, 5);
         Due.gives("auction by 1", y, y.auction(0, 0, -1, 0, 1), 1);
         brought(y, 5, 3, 0);
+        // One who is outbid in a round is asked in the same round still: 10 by 0, 20 by 1; 30 by 0, 40 by 1.
+        FairTables w = fair(2, 45, 45);
+        Due.gives("auction of two", w, w.auction(0, 0, -1, 0, 10), 1);
+        brought(w, 40, 3, 0);
         FairTables z = fair(2, 0, 0, 7);
         Due.gives("auction with one bidder", z, z.auction(0, 0, -1, 50, 7), 2);
         brought(z, 7, 2, 0);

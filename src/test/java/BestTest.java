@@ -18,13 +18,7 @@ public final class BestTest {
         int share = 1 + random.nextInt(4);
         int[][] worths = new int[8][10];
         int hours = 4;
-        FairTables x = new FairTables();
-        for (int a = 0; a < agents; a++) {
-            x.agent();
-        }
-        for (int e = 0; e < editors; e++) {
-            x.editor();
-        }
+        FairTables x = Fairs.withHours(agents, editors, hours);
         for (int a = 0; a < agents; a++) {
             for (int e = 0; e < editors; e++) {
                 worths[a][e] = random.nextInt(4) < share ? 1 + random.nextInt(most) : 0;

@@ -19,18 +19,6 @@ public final class MeetingsTest {
         Due.end();
     }
 
-    private static FairTables fair(int agents, int editors, int hours) {
-        FairTables x = new FairTables();
-        for (int a = 0; a < agents; a++) {
-            x.agent();
-        }
-        for (int e = 0; e < editors; e++) {
-            x.editor();
-        }
-        x.hours(hours);
-        return x;
-    }
-
     private static void worths(FairTables x, int[][] worths) {
         for (int a = 0; a < worths.length; a++) {
             for (int e = 0; e < worths[a].length; e++) {
@@ -70,7 +58,7 @@ public final class MeetingsTest {
     }
 
     private static void hoursAreOneToEight() {
-        FairTables x = fair(1, 10, 4);
+        FairTables x = Fairs.withHours(1, 10, 4);
         for (int bad : new int[] {0, 9, -1, MIN, MAX}) {
             Due.not("hours(" + bad + ")", x, x.hours(bad), 2);
         }
@@ -92,7 +80,7 @@ public final class MeetingsTest {
     }
 
     private static void worthRefuses() {
-        FairTables x = fair(2, 3, 1);
+        FairTables x = Fairs.withHours(2, 3, 1);
         Due.done("worth(1, 2, 100)", x, x.worth(1, 2, 100));
         for (int bad : new int[] {-1, 101, MIN, MAX}) {
             Due.not("worth(1, 2, " + bad + ")", x, x.worth(1, 2, bad), 2);
@@ -112,7 +100,7 @@ public final class MeetingsTest {
     }
 
     private static void bestIsTheMostWorth() {
-        FairTables x = fair(3, 3, 1);
+        FairTables x = Fairs.withHours(3, 3, 1);
         // The greatest first would give 10 + 6 + 1.
         worths(x, new int[][] {{10, 9, 2}, {9, 1, 6}, {3, 5, 1}});
         Due.gives("best()", x, x.best(), 21);
@@ -123,16 +111,16 @@ public final class MeetingsTest {
     }
 
     private static void bestIsTheFirstOfSeveral() {
-        FairTables x = fair(3, 3, 1);
+        FairTables x = Fairs.withHours(3, 3, 1);
         worths(x, new int[][] {{7, 7, 7}, {7, 7, 7}, {7, 7, 7}});
         Due.gives("best()", x, x.best(), 21);
         hours(x, new int[][] {{0, -1, -1}, {-1, 0, -1}, {-1, -1, 0}});
         // One 8 and two 4: the SET with pair (0, 0) is ahead, though it has one meeting alone.
-        FairTables y = fair(2, 2, 1);
+        FairTables y = Fairs.withHours(2, 2, 1);
         worths(y, new int[][] {{8, 4}, {4, 0}});
         hours(y, new int[][] {{0, -1}, {-1, -1}});
         // Two SETS that differ in the last pairs alone.
-        FairTables z = fair(8, 10, 1);
+        FairTables z = Fairs.withHours(8, 10, 1);
         z.worth(7, 8, 50);
         z.worth(7, 9, 50);
         z.worth(6, 9, 50);
@@ -142,13 +130,13 @@ public final class MeetingsTest {
         Due.gives("meets(7, 9)", z, z.meets(7, 9), 0);
         Due.none("meets(6, 9)", z, z.meets(6, 9), 9);
         // The first pair weighs more than all later ones: (0, 1) ahead of (0, 2), (1, 0), (1, 1).
-        FairTables w = fair(2, 3, 1);
+        FairTables w = Fairs.withHours(2, 3, 1);
         worths(w, new int[][] {{0, 6, 3}, {0, 3, 0}});
         hours(w, new int[][] {{-1, 0, -1}, {-1, -1, -1}});
     }
 
     private static void nobodyIsInMoreThanThereAreHours() {
-        FairTables x = fair(8, 10, 3);
+        FairTables x = Fairs.withHours(8, 10, 3);
         for (int a = 0; a < 8; a++) {
             for (int e = 0; e < 10; e++) {
                 x.worth(a, e, 100);
@@ -172,7 +160,7 @@ public final class MeetingsTest {
     }
 
     private static void noWorthNoMeeting() {
-        FairTables x = fair(2, 2, 2);
+        FairTables x = Fairs.withHours(2, 2, 2);
         Due.gives("best()", x, x.best(), 0);
         hours(x, new int[][] {{-1, -1}, {-1, -1}});
         Due.none("at(0, 0)", x, x.at(0, 0), 9);
@@ -183,13 +171,13 @@ public final class MeetingsTest {
     }
 
     private static void laidToTheLeastHour() {
-        FairTables x = fair(2, 2, 2);
+        FairTables x = Fairs.withHours(2, 2, 2);
         worths(x, new int[][] {{1, 0}, {1, 1}});
         hours(x, new int[][] {{0, -1}, {1, 0}});
-        FairTables y = fair(3, 3, 2);
+        FairTables y = Fairs.withHours(3, 3, 2);
         worths(y, new int[][] {{0, 1, 0}, {1, 0, 1}, {0, 1, 1}});
         hours(y, new int[][] {{-1, 0, -1}, {0, -1, 1}, {-1, 1, 0}});
-        FairTables z = fair(2, 3, 2);
+        FairTables z = Fairs.withHours(2, 3, 2);
         worths(z, new int[][] {{1, 1, 0}, {0, 1, 1}});
         hours(z, new int[][] {{0, 1, -1}, {-1, 0, 1}});
     }
@@ -197,7 +185,7 @@ public final class MeetingsTest {
     private static void laidWithAChain() {
         // (0, 0) 0, (0, 1) 1, (0, 2) 2, (1, 0) 1, (1, 1) 0, then (1, 2): agent 1 is free at 2 (a), editor 2 at
         // 0 (b): (0, 2) goes to 0, of agent 0 (0, 0) to 2, editor 0 has none at 2: (1, 2) is at 2.
-        FairTables x = fair(2, 3, 3);
+        FairTables x = Fairs.withHours(2, 3, 3);
         worths(x, new int[][] {{1, 1, 1}, {1, 1, 1}});
         Due.gives("best()", x, x.best(), 6);
         hours(x, new int[][] {{2, 1, 0}, {1, 0, 2}});
@@ -206,27 +194,27 @@ public final class MeetingsTest {
     private static void laidWithALongChain() {
         // The meetings by turns: (0, 3) 0, (1, 0) 0, (2, 0) 1, (2, 1) 0, (3, 1) 1, then (3, 3): agent 3 is
         // free at 0 (a), editor 3 at 1 (b): (0, 3) goes to 1, agent 0 has none at 1, and (3, 3) is at 0.
-        FairTables x = fair(4, 4, 2);
+        FairTables x = Fairs.withHours(4, 4, 2);
         worths(x, new int[][] {{0, 0, 0, 1}, {1, 0, 0, 0}, {1, 1, 0, 0}, {0, 1, 0, 1}});
         hours(x, new int[][] {{-1, -1, -1, 1}, {0, -1, -1, -1}, {1, 0, -1, -1}, {-1, 1, -1, 0}});
         // (0, 1) 0, (0, 2) 1, (1, 0) 0, then (1, 2): a is 1, b is 0: (0, 2) goes to 0, of agent 0 (0, 1) to
         // 1, editor 1 has none at 1: (1, 2) is at 1.
-        FairTables y = fair(2, 3, 2);
+        FairTables y = Fairs.withHours(2, 3, 2);
         worths(y, new int[][] {{0, 1, 1}, {1, 0, 1}});
         hours(y, new int[][] {{-1, 1, 0}, {0, -1, 1}});
         // All six without a chain: (0, 1) 0, (0, 2) 1, (1, 0) 0, (1, 1) 1, (2, 0) 1, (2, 2) 0.
-        FairTables z = fair(3, 3, 2);
+        FairTables z = Fairs.withHours(3, 3, 2);
         worths(z, new int[][] {{0, 1, 1}, {1, 1, 0}, {1, 0, 1}});
         hours(z, new int[][] {{-1, 0, 1}, {0, 1, -1}, {1, -1, 0}});
         // A chain of four: (0, 1) 0, (0, 3) 1, (1, 1) 1, (1, 2) 0, (2, 0) 0, then (2, 3): a is 1, b is 0:
         // (0, 3) to 0, (0, 1) to 1, (1, 1) to 0, (1, 2) to 1, editor 2 has none at 1: (2, 3) is at 1.
-        FairTables w = fair(3, 4, 2);
+        FairTables w = Fairs.withHours(3, 4, 2);
         worths(w, new int[][] {{0, 1, 0, 1}, {0, 1, 1, 0}, {1, 0, 0, 1}});
         hours(w, new int[][] {{-1, 1, -1, 0}, {-1, 0, 1, -1}, {0, -1, -1, 1}});
     }
 
     private static void bestChangesWithWhatIsSaid() {
-        FairTables x = fair(1, 2, 1);
+        FairTables x = Fairs.withHours(1, 2, 1);
         x.worth(0, 0, 5);
         Due.gives("best()", x, x.best(), 5);
         x.worth(0, 1, 6);
@@ -254,7 +242,7 @@ public final class MeetingsTest {
     }
 
     private static void meetsAndAtRefuse() {
-        FairTables x = fair(2, 3, 2);
+        FairTables x = Fairs.withHours(2, 3, 2);
         x.worth(0, 0, 1);
         for (int bad : new int[] {-1, 2, MIN, MAX}) {
             Due.none("meets(" + bad + ", 0)", x, x.meets(bad, 0), 1);

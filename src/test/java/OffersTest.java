@@ -15,6 +15,7 @@ public final class OffersTest {
         takenUpToTheEnd();
         takeMakesAGrant();
         takeVoidsWhatWouldClash();
+        takeVoidsEarlierOnes();
         takeLeavesWhatHasEnded();
         takeAsksInItsOrder();
         takeNeedsThatTheyStillMay();
@@ -23,19 +24,8 @@ public final class OffersTest {
         Due.end();
     }
 
-    private static FairTables fair(int editors, boolean... secrets) {
-        FairTables x = new FairTables();
-        for (int e = 0; e < editors; e++) {
-            x.editor();
-        }
-        for (boolean secret : secrets) {
-            x.book(secret);
-        }
-        return x;
-    }
-
     private static void offersComeToSixty() {
-        FairTables x = fair(1, false);
+        FairTables x = Fairs.withBooks(1, false);
         for (int o = 0; o < 60; o++) {
             Due.gives("offer", x, x.offer(0, 0, 1, 1, 1, 0, 0, o, o + 1), o);
         }
@@ -48,7 +38,7 @@ public final class OffersTest {
     }
 
     private static void offerRefuses() {
-        FairTables x = fair(1, false);
+        FairTables x = Fairs.withBooks(1, false);
         Due.gives("offer", x, x.offer(0, 0, 1, 1, 1, 0, 0, 10, 20), 0);
         for (int bad : new int[] {-1, 1, MIN, MAX}) {
             Due.none("offer of book " + bad, x, x.offer(bad, 0, 0, 1, 1, 0, 0, 5, 20), 1);
@@ -79,7 +69,7 @@ public final class OffersTest {
     }
 
     private static void offerNeedsThatTheyMay() {
-        FairTables x = fair(2, false, true);
+        FairTables x = Fairs.withBooks(2, false, true);
         x.grant(0, 1, 1, 1, 1, 5, 6);
         Due.none("offer that would clash", x, x.offer(0, 0, 1, 1, 1, 6, 7, 10, 20), 12);
         Due.none("offer of a secret book", x, x.offer(1, 0, 1, 1, 1, 0, 0, 10, 20), 12);
@@ -96,7 +86,7 @@ public final class OffersTest {
     }
 
     private static void minutesNeverGoBack() {
-        FairTables x = fair(1, false);
+        FairTables x = Fairs.withBooks(1, false);
         Due.gives("offer at 10", x, x.offer(0, 0, 1, 1, 1, 0, 0, 10, 90), 0);
         Due.gives("offer at 10", x, x.offer(0, 0, 2, 1, 1, 0, 0, 10, 90), 1);
         Due.gives("state(0, 50)", x, x.state(0, 50), OPEN);
@@ -117,7 +107,7 @@ public final class OffersTest {
     }
 
     private static void takenUpToTheEnd() {
-        FairTables x = fair(1, false);
+        FairTables x = Fairs.withBooks(1, false);
         x.offer(0, 0, 1, 1, 1, 0, 0, 0, 5);
         x.offer(0, 0, 2, 1, 1, 0, 0, 0, 6);
         Due.gives("state at the end", x, x.state(0, 5), OPEN);
@@ -130,7 +120,7 @@ public final class OffersTest {
     }
 
     private static void takeMakesAGrant() {
-        FairTables x = fair(3, false, false);
+        FairTables x = Fairs.withBooks(3, false, false);
         x.grant(1, 0, 1, 1, 1, 0, 0);
         x.offer(0, 2, 6, 3, 1, 4, 8, 1, 9);
         Due.none("has ahead of it", x, x.has(0, 1, 0, 0, 4), 9);
@@ -146,7 +136,7 @@ public final class OffersTest {
     }
 
     private static void takeVoidsWhatWouldClash() {
-        FairTables x = fair(3, false, false);
+        FairTables x = Fairs.withBooks(3, false, false);
         x.offer(0, 0, 1, 1, 1, 0, 5, 10, 50);
         x.offer(0, 1, 1, 1, 1, 5, 9, 10, 50);
         x.offer(0, 2, 2, 1, 1, 0, 5, 10, 50);
@@ -177,8 +167,17 @@ public final class OffersTest {
         Due.gives("another book", x, x.state(3, 12), OPEN);
     }
 
+    private static void takeVoidsEarlierOnes() {
+        FairTables x = Fairs.withBooks(2, false);
+        x.offer(0, 0, 1, 1, 1, 0, 5, 10, 50);
+        x.offer(0, 1, 1, 1, 1, 5, 9, 10, 50);
+        Due.gives("take(1, 12)", x, x.take(1, 12), 0);
+        Due.gives("the first offer", x, x.state(0, 12), VOID);
+        Due.gives("the one that was taken", x, x.state(1, 12), TAKEN);
+    }
+
     private static void takeLeavesWhatHasEnded() {
-        FairTables x = fair(2, false);
+        FairTables x = Fairs.withBooks(2, false);
         x.offer(0, 0, 1, 1, 1, 0, 5, 10, 50);
         x.offer(0, 1, 1, 1, 1, 0, 5, 10, 20);
         x.offer(0, 1, 1, 1, 1, 0, 5, 10, 21);
@@ -189,7 +188,7 @@ public final class OffersTest {
     }
 
     private static void takeAsksInItsOrder() {
-        FairTables x = fair(2, false);
+        FairTables x = Fairs.withBooks(2, false);
         x.offer(0, 0, 1, 1, 1, 0, 5, 10, 20);
         for (int bad : new int[] {-1, 1, 60, MIN, MAX}) {
             Due.none("take of offer " + bad, x, x.take(bad, -1), 1);
@@ -211,7 +210,7 @@ public final class OffersTest {
     }
 
     private static void takeNeedsThatTheyStillMay() {
-        FairTables x = fair(2, false, true);
+        FairTables x = Fairs.withBooks(2, false, true);
         x.list(1, 0, true);
         x.offer(0, 0, 1, 1, 1, 0, 0, 1, 50);
         x.offer(1, 0, 1, 1, 1, 0, 0, 1, 50);
@@ -231,7 +230,7 @@ public final class OffersTest {
     }
 
     private static void grantsAreSixtyWithTaken() {
-        FairTables x = fair(1, false);
+        FairTables x = Fairs.withBooks(1, false);
         x.offer(0, 0, 1, 1, 1, 0, 0, 0, 9);
         x.offer(0, 0, 2, 1, 1, 0, 0, 0, 9);
         for (int g = 0; g < 59; g++) {
@@ -244,7 +243,7 @@ public final class OffersTest {
     }
 
     private static void stateRefuses() {
-        FairTables x = fair(1, false);
+        FairTables x = Fairs.withBooks(1, false);
         x.offer(0, 0, 1, 1, 1, 0, 0, 10, 20);
         for (int bad : new int[] {-1, 1, 60, MIN, MAX}) {
             Due.none("state of offer " + bad, x, x.state(bad, -1), 1);

@@ -23,19 +23,8 @@ public final class RightsTest {
         Due.end();
     }
 
-    private static FairTables fair(int editors, boolean... secrets) {
-        FairTables x = new FairTables();
-        for (int e = 0; e < editors; e++) {
-            x.editor();
-        }
-        for (boolean secret : secrets) {
-            x.book(secret);
-        }
-        return x;
-    }
-
     private static void booksCome() {
-        FairTables x = fair(1);
+        FairTables x = Fairs.withBooks(1);
         for (int b = 0; b < 12; b++) {
             Due.gives("hears(" + b + ", 0)", x, x.hears(b, 0), 0);
             Due.gives("book", x, x.book(b % 2 == 1), b);
@@ -48,7 +37,7 @@ public final class RightsTest {
     }
 
     private static void listsChange() {
-        FairTables x = fair(2, true, true, false);
+        FairTables x = Fairs.withBooks(2, true, true, false);
         Due.not("list(0, 0, false)", x, x.list(0, 0, false), 8);
         Due.done("list(0, 0, true)", x, x.list(0, 0, true));
         Due.not("list(0, 0, true)", x, x.list(0, 0, true), 8);
@@ -72,7 +61,7 @@ public final class RightsTest {
     }
 
     private static void secretBooksAreToldToTheirList() {
-        FairTables x = fair(10, false, true);
+        FairTables x = Fairs.withBooks(10, false, true);
         x.list(1, 9, true);
         for (int e = 0; e < 10; e++) {
             Due.gives("hears(0, " + e + ")", x, x.hears(0, e), 1);
@@ -89,7 +78,7 @@ public final class RightsTest {
     }
 
     private static void grantsComeToSixty() {
-        FairTables x = fair(1, false);
+        FairTables x = Fairs.withBooks(1, false);
         for (int g = 0; g < 60; g++) {
             Due.gives("grant", x, x.grant(0, 0, 255, 15, 15, g, g), g);
         }
@@ -105,7 +94,7 @@ public final class RightsTest {
     }
 
     private static void grantsClashInAllFourAlone() {
-        FairTables x = fair(2, false, false);
+        FairTables x = Fairs.withBooks(2, false, false);
         Due.gives("grant 0", x, x.grant(0, 0, 6, 6, 6, 100, 200), 0);
         Due.none("the same", x, x.grant(0, 1, 6, 6, 6, 100, 200), 10);
         Due.none("the same by the same", x, x.grant(0, 0, 6, 6, 6, 100, 200), 10);
@@ -126,7 +115,7 @@ public final class RightsTest {
     }
 
     private static void grantRefuses() {
-        FairTables x = fair(1, false, true);
+        FairTables x = Fairs.withBooks(1, false, true);
         for (int bad : new int[] {-1, 2, 12, MIN, MAX}) {
             Due.none("grant of book " + bad, x, x.grant(bad, 0, 0, 1, 1, 0, 0), 1);
         }
@@ -151,7 +140,7 @@ public final class RightsTest {
     }
 
     private static void endFreesDays() {
-        FairTables x = fair(2, false);
+        FairTables x = Fairs.withBooks(2, false);
         x.grant(0, 0, 1, 1, 1, 10, 20);
         Due.done("end(0, 15)", x, x.end(0, 15));
         Due.gives("has on day 14", x, x.has(0, 0, 0, 0, 14), 0);
@@ -175,7 +164,7 @@ public final class RightsTest {
     }
 
     private static void endRefuses() {
-        FairTables x = fair(1, false);
+        FairTables x = Fairs.withBooks(1, false);
         x.grant(0, 0, 1, 1, 1, 10, 20);
         for (int bad : new int[] {-1, 1, 60, MIN, MAX}) {
             Due.not("end(" + bad + ", -1)", x, x.end(bad, -1), 1);
@@ -192,7 +181,7 @@ public final class RightsTest {
     }
 
     private static void hasTellsTheEditor() {
-        FairTables x = fair(10, false, true);
+        FairTables x = Fairs.withBooks(10, false, true);
         x.grant(0, 9, 128, 8, 8, 9_999, 9_999);
         x.grant(1, 3, 1, 1, 1, 0, 0);
         x.grant(0, 4, 2, 4, 1, 5, 6);
@@ -213,7 +202,7 @@ public final class RightsTest {
     }
 
     private static void hasRefuses() {
-        FairTables x = fair(1, false);
+        FairTables x = Fairs.withBooks(1, false);
         for (int bad : new int[] {-1, 1, MIN, MAX}) {
             Due.none("has of book " + bad, x, x.has(bad, 8, 0, 0, 0), 1);
         }
@@ -236,7 +225,7 @@ public final class RightsTest {
     }
 
     private static void leftIsAFraction() {
-        FairTables x = fair(1, false, false);
+        FairTables x = Fairs.withBooks(1, false, false);
         Due.done("left", x, x.left(0, 255, 15, 15, 0));
         fraction(x, 1, 1);
         x.grant(0, 0, 1, 1, 1, 5, 10);
@@ -267,7 +256,7 @@ public final class RightsTest {
     }
 
     private static void leftRefuses() {
-        FairTables x = fair(1, false);
+        FairTables x = Fairs.withBooks(1, false);
         x.grant(0, 0, 1, 1, 1, 0, 0);
         x.left(0, 3, 1, 1, 0);
         fraction(x, 1, 2);
@@ -290,7 +279,7 @@ public final class RightsTest {
     }
 
     private static void optionsBarOthers() {
-        FairTables x = fair(3, false, false);
+        FairTables x = Fairs.withBooks(3, false, false);
         Due.done("option(0, 1, 10, 20)", x, x.option(0, 1, 10, 20));
         for (int minute : new int[] {9, 10, 15, 20, 21}) {
             int other = minute >= 10 && minute <= 20 ? 0 : 1;
@@ -308,7 +297,7 @@ public final class RightsTest {
     }
 
     private static void optionRefuses() {
-        FairTables x = fair(2, false);
+        FairTables x = Fairs.withBooks(2, false);
         for (int bad : new int[] {-1, 1, MIN, MAX}) {
             Due.not("option of book " + bad, x, x.option(bad, 0, 5, 4), 1);
         }
@@ -331,7 +320,7 @@ public final class RightsTest {
     }
 
     private static void mayNeedsAllThree() {
-        FairTables x = fair(2, true);
+        FairTables x = Fairs.withBooks(2, true);
         Due.gives("may, not listed", x, x.may(0, 0, 1, 1, 1, 0, 0, 0), 0);
         x.list(0, 0, true);
         Due.gives("may, listed", x, x.may(0, 0, 1, 1, 1, 0, 0, 0), 1);
@@ -354,7 +343,7 @@ public final class RightsTest {
     }
 
     private static void mayRefuses() {
-        FairTables x = fair(1, true);
+        FairTables x = Fairs.withBooks(1, true);
         for (int bad : new int[] {-1, 1, MIN, MAX}) {
             Due.none("may of book " + bad, x, x.may(bad, 0, 0, 1, 1, 0, 0, 0), 1);
             Due.none("may of editor " + bad, x, x.may(0, bad, 0, 1, 1, 0, 0, 0), 1);
