@@ -42,6 +42,15 @@ final class Due {
         is(call + ": status()", x.status(), status);
     }
 
+    /** A call of any kind that gave NONE, or false, with a STATUS. */
+    static void refused(String call, FairTables x, Object got, int status) {
+        if (got instanceof Boolean) {
+            not(call, x, (Boolean) got, status);
+        } else {
+            none(call, x, ((Number) got).longValue(), status);
+        }
+    }
+
     static void end() {
         System.out.println(wrong == 0 ? asked + " answers are as due" : wrong + " of " + asked + " answers are not as due");
         if (wrong != 0) {

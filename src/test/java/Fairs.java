@@ -23,4 +23,75 @@ final class Fairs {
         x.hours(hours);
         return x;
     }
+
+    /**
+     * A fair with something of everything: TRAYS 0 (10 of 64 bits), 1 and 2 (5 and 4 of 32), 3 MISSING; 3 agents
+     * and 4 editors who all meet; BOOK 0 for all, 1 for editors 0 and 3, 2 for nobody; GRANTS 0 to 3, of which 1
+     * is ended; OFFERS 0 TAKEN, 1 VOID, 2 ENDED, 3 to 5 OPEN; minute 10; an AUCTION that was topped; LEFT 1 by 3.
+     */
+    static FairTables rich() {
+        FairTables x = withBooks(4, false, true, true);
+        layTrays(x);
+        for (int a = 0; a < 3; a++) {
+            x.agent();
+            for (int e = 0; e < 4; e++) {
+                x.worth(a, e, 10 * a + e + 1);
+            }
+        }
+        x.list(1, 0, true);
+        x.list(1, 3, true);
+        x.grant(0, 1, 3, 1, 1, 0, 9);
+        x.grant(1, 2, 255, 1, 1, 0, 9);
+        x.end(1, 5);
+        x.grant(2, 3, 1, 1, 1, 0, 9_999);
+        x.option(2, 2, 50, 60);
+        makeOffers(x);
+        x.left(0, 7, 1, 1, 5);
+        x.auction(0, 10, 0, 10, 10);
+        return x;
+    }
+
+    private static void layTrays(FairTables x) {
+        x.tray(0, 3, 10);
+        x.write(0, 0, 1_000_000);
+        x.write(0, 1, 50);
+        x.write(0, 2, 40);
+        x.write(0, 9, -7);
+        x.tray(1, 2, 5);
+        x.tray(2, 2, 4);
+        for (int place = 0; place < 5; place++) {
+            x.write(1, place, 10 + place);
+            x.write(2, place, 20 + place);
+        }
+    }
+
+    private static void makeOffers(FairTables x) {
+        x.offer(0, 1, 8, 4, 4, 0, 5, 2, 9);
+        x.offer(0, 2, 8, 4, 12, 5, 6, 2, 90);
+        x.offer(0, 3, 16, 4, 4, 0, 5, 2, 5);
+        x.take(0, 3);
+        x.offer(0, 2, 32, 4, 4, 0, 5, 10, 40);
+        x.offer(1, 0, 32, 4, 4, 0, 5, 10, 40);
+        x.offer(0, 0, 64, 4, 4, 0, 5, 10, 100_000);
+    }
+
+    /** All GRANTS that can still be made, each of a day of its own in a CELL of book 2 that nothing else uses. */
+    static void fillGrants(FairTables x) {
+        for (int day = 0; x.grant(2, 0, 128, 8, 8, day, day) >= 0; day++) {
+            continue;
+        }
+    }
+
+    static void fillOptions(FairTables x) {
+        while (x.option(1, 3, 70, 70)) {
+            continue;
+        }
+    }
+
+    /** All OFFERS that can still be made, at minute 10. */
+    static void fillOffers(FairTables x) {
+        while (x.offer(1, 0, 128, 8, 8, 0, 0, 10, 11) >= 0) {
+            continue;
+        }
+    }
 }

@@ -7,11 +7,17 @@ public final class MeetingsTest {
         agentsAndEditorsCome();
         hoursAreOneToEight();
         worthRefuses();
+        bestOfNobody();
+        worthIsUpToAHundred();
         bestIsTheMostWorth();
         bestIsTheFirstOfSeveral();
         nobodyIsInMoreThanThereAreHours();
+        anAgentIsInAsManyAsThereAreHours();
+        anEditorIsInAsManyAsThereAreHours();
+        aPairMeetsOnce();
         noWorthNoMeeting();
         laidToTheLeastHour();
+        laidToTheLastHour();
         laidWithAChain();
         laidWithALongChain();
         bestChangesWithWhatIsSaid();
@@ -99,6 +105,40 @@ public final class MeetingsTest {
         Due.done("worth(1, 2, 0)", x, x.worth(1, 2, 0));
     }
 
+    /** None at all: no agents, no editors, or neither. */
+    private static void bestOfNobody() {
+        FairTables x = new FairTables();
+        Due.gives("best()", x, x.best(), 0);
+        x.agent();
+        Due.gives("best() without editors", x, x.best(), 0);
+        Due.none("at(0, 0) without editors", x, x.at(0, 0), 9);
+        Due.none("meets(0, 0) without editors", x, x.meets(0, 0), 1);
+        FairTables y = new FairTables();
+        y.editor();
+        Due.gives("best() without agents", y, y.best(), 0);
+        Due.none("at(0, 0) without agents", y, y.at(0, 0), 1);
+        Due.none("meets(0, 0) without agents", y, y.meets(0, 0), 1);
+    }
+
+    /** "WORTH of a meeting .. 0 to 100 (0: they do not meet; at first)" */
+    private static void worthIsUpToAHundred() {
+        FairTables x = Fairs.withHours(8, 10, 8);
+        for (int worth : new int[] {1, 2, 99, 100}) {
+            Due.done("worth(0, 0, " + worth + ")", x, x.worth(0, 0, worth));
+            Due.gives("best()", x, x.best(), worth);
+            Due.gives("meets(0, 0)", x, x.meets(0, 0), 0);
+            Due.done("worth(7, 9, " + worth + ")", x, x.worth(7, 9, worth));
+            Due.gives("best()", x, x.best(), 2 * worth);
+            Due.gives("meets(7, 9)", x, x.meets(7, 9), 0);
+            Due.done("worth(7, 9, 0)", x, x.worth(7, 9, 0));
+            Due.none("meets(7, 9)", x, x.meets(7, 9), 9);
+            Due.none("at(7, 0)", x, x.at(7, 0), 9);
+        }
+        Due.done("worth(0, 0, 0)", x, x.worth(0, 0, 0));
+        Due.gives("best()", x, x.best(), 0);
+        Due.none("meets(0, 0)", x, x.meets(0, 0), 9);
+    }
+
     private static void bestIsTheMostWorth() {
         FairTables x = Fairs.withHours(3, 3, 1);
         // The greatest first would give 10 + 6 + 1.
@@ -159,6 +199,61 @@ public final class MeetingsTest {
         Due.gives("best()", x, x.best(), 800);
     }
 
+    /** As many as there are HALF HOURS all meet; of one more, the one of least WORTH, or the last, does not. */
+    private static void anAgentIsInAsManyAsThereAreHours() {
+        for (int hours = 1; hours <= 8; hours++) {
+            FairTables x = Fairs.withHours(1, 10, hours);
+            for (int e = 0; e < hours; e++) {
+                x.worth(0, e, 5);
+            }
+            Due.gives("best()", x, x.best(), 5 * hours);
+            for (int e = 0; e < hours; e++) {
+                Due.gives("meets(0, " + e + ")", x, x.meets(0, e), e);
+            }
+            x.worth(0, hours, 5);
+            Due.gives("best() with one too many", x, x.best(), 5 * hours);
+            Due.none("the last of one too many", x, x.meets(0, hours), 9);
+            x.worth(0, hours, 6);
+            Due.gives("best() with a better one", x, x.best(), 5 * hours + 1);
+            Due.gives("the better one", x, x.meets(0, hours), hours - 1);
+            Due.none("the last of the others", x, x.meets(0, hours - 1), 9);
+        }
+    }
+
+    private static void anEditorIsInAsManyAsThereAreHours() {
+        for (int hours = 1; hours <= 8; hours++) {
+            FairTables x = Fairs.withHours(8, 1, hours);
+            for (int a = 0; a < hours; a++) {
+                x.worth(a, 0, 5);
+            }
+            Due.gives("best()", x, x.best(), 5 * hours);
+            for (int a = 0; a < hours; a++) {
+                Due.gives("meets(" + a + ", 0)", x, x.meets(a, 0), a);
+            }
+            if (hours < 8) {
+                x.worth(hours, 0, 5);
+                Due.gives("best() with one too many", x, x.best(), 5 * hours);
+                Due.none("the last of one too many", x, x.meets(hours, 0), 9);
+                x.worth(0, 0, 4);
+                Due.gives("best() with a worse one", x, x.best(), 5 * hours);
+                Due.none("the worse one", x, x.meets(0, 0), 9);
+                Due.gives("the last", x, x.meets(hours, 0), hours - 1);
+            }
+        }
+    }
+
+    /** "of unlike pairs": free half hours do not make a pair meet twice. */
+    private static void aPairMeetsOnce() {
+        FairTables x = Fairs.withHours(1, 1, 8);
+        x.worth(0, 0, 100);
+        Due.gives("best()", x, x.best(), 100);
+        Due.gives("meets(0, 0)", x, x.meets(0, 0), 0);
+        for (int hour = 1; hour < 8; hour++) {
+            Due.none("at(0, " + hour + ")", x, x.at(0, hour), 9);
+        }
+        Due.none("at(0, 8)", x, x.at(0, 8), 2);
+    }
+
     private static void noWorthNoMeeting() {
         FairTables x = Fairs.withHours(2, 2, 2);
         Due.gives("best()", x, x.best(), 0);
@@ -180,6 +275,28 @@ public final class MeetingsTest {
         FairTables z = Fairs.withHours(2, 3, 2);
         worths(z, new int[][] {{1, 1, 0}, {0, 1, 1}});
         hours(z, new int[][] {{0, 1, -1}, {-1, 0, 1}});
+    }
+
+    /** Eight agents and ten editors in eight half hours: every seat of every agent is taken. */
+    private static void laidToTheLastHour() {
+        FairTables x = Fairs.withHours(8, 10, 8);
+        for (int a = 0; a < 8; a++) {
+            for (int e = 0; e < 10; e++) {
+                x.worth(a, e, e < 8 ? 2 : 1);
+            }
+        }
+        Due.gives("best()", x, x.best(), 128);
+        for (int a = 0; a < 8; a++) {
+            boolean[] met = new boolean[10];
+            for (int hour = 0; hour < 8; hour++) {
+                int editor = x.at(a, hour);
+                Due.is("an editor who was not met yet", editor >= 0 && editor < 8 && !met[editor], true);
+                met[editor] = true;
+                Due.gives("meets", x, x.meets(a, editor), hour);
+            }
+            Due.none("meets(" + a + ", 8)", x, x.meets(a, 8), 9);
+            Due.none("meets(" + a + ", 9)", x, x.meets(a, 9), 9);
+        }
     }
 
     private static void laidWithAChain() {

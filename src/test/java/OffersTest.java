@@ -9,17 +9,25 @@ public final class OffersTest {
 
     public static void main(String[] args) {
         offersComeToSixty();
+        offersOfAllBooksAreSixty();
+        offersFromTheFirstToTheLastMinute();
         offerRefuses();
         offerNeedsThatTheyMay();
+        optionsBarOffersWhileTheyLast();
+        optionsBarTakesWhileTheyLast();
         minutesNeverGoBack();
         takenUpToTheEnd();
+        takenAtTheLastMinute();
         takeMakesAGrant();
         takeVoidsWhatWouldClash();
+        takeVoidsWithOneCellAndDayInBoth();
         takeVoidsEarlierOnes();
         takeLeavesWhatHasEnded();
         takeAsksInItsOrder();
+        takeOfEachThatIsNotOpen();
         takeNeedsThatTheyStillMay();
         grantsAreSixtyWithTaken();
+        stateAtTheEdges();
         stateRefuses();
         Due.end();
     }
@@ -35,6 +43,43 @@ public final class OffersTest {
         x.grant(0, 0, 1, 1, 1, 0, 0);
         // 7 is asked ahead of 12.
         Due.none("an offer more that they may not", x, x.offer(0, 0, 1, 1, 1, 0, 0, 70, 80), 7);
+    }
+
+    /** "OFFERS, at most 60": of all BOOKS together, also those that are TAKEN, VOID or ENDED. */
+    private static void offersOfAllBooksAreSixty() {
+        FairTables x = Fairs.withBooks(2, new boolean[12]);
+        Due.gives("one that is taken", x, x.offer(0, 0, 1, 1, 1, 0, 0, 0, 1), 0);
+        Due.gives("one that is void", x, x.offer(0, 1, 1, 1, 1, 0, 0, 0, 9), 1);
+        Due.gives("one that ends", x, x.offer(1, 1, 1, 1, 1, 0, 0, 0, 1), 2);
+        Due.gives("take(0, 1)", x, x.take(0, 1), 0);
+        for (int o = 3; o < 60; o++) {
+            Due.gives("offer", x, x.offer(o % 12, 0, 2, 1, 1, 0, 0, 2, 3), o);
+        }
+        Due.gives("the void one", x, x.state(1, 2), VOID);
+        Due.gives("the one that ended", x, x.state(2, 2), ENDED);
+        for (int book = 0; book < 12; book++) {
+            Due.none("an offer more of book " + book, x, x.offer(book, 0, 2, 1, 1, 0, 0, 2, 3), 7);
+        }
+        Due.gives("state of the last one", x, x.state(59, 2), OPEN);
+        Due.none("state of one behind it", x, x.state(60, 2), 1);
+        Due.gives("take of the last one", x, x.take(59, 3), 1);
+    }
+
+    /** "made at a minute, ending at a later one (to 100,000)" */
+    private static void offersFromTheFirstToTheLastMinute() {
+        FairTables x = Fairs.withBooks(1, false);
+        Due.none("offer from -1", x, x.offer(0, 0, 1, 1, 1, 0, 0, -1, 5), 2);
+        Due.none("offer from 0 to 0", x, x.offer(0, 0, 1, 1, 1, 0, 0, 0, 0), 2);
+        Due.gives("offer from 0 to 1", x, x.offer(0, 0, 1, 1, 1, 0, 0, 0, 1), 0);
+        Due.gives("offer from 0 to 100000", x, x.offer(0, 0, 1, 1, 1, 0, 0, 0, 100_000), 1);
+        Due.none("offer from 0 to 100001", x, x.offer(0, 0, 1, 1, 1, 0, 0, 0, 100_001), 2);
+        Due.gives("offer from 99999 to 100000", x, x.offer(0, 0, 1, 1, 1, 0, 0, 99_999, 100_000), 2);
+        Due.none("offer from 100000 to 100000", x, x.offer(0, 0, 1, 1, 1, 0, 0, 100_000, 100_000), 2);
+        Due.none("offer from 100000 to 100001", x, x.offer(0, 0, 1, 1, 1, 0, 0, 100_000, 100_001), 2);
+        Due.none("offer from 99999 to MIN", x, x.offer(0, 0, 1, 1, 1, 0, 0, 99_999, MIN), 2);
+        Due.none("offer from MIN to MAX", x, x.offer(0, 0, 1, 1, 1, 0, 0, MIN, MAX), 2);
+        Due.none("offer at a minute that is gone", x, x.offer(0, 0, 1, 1, 1, 0, 0, 99_998, 99_999), 3);
+        Due.gives("offer at the same minute", x, x.offer(0, 0, 1, 1, 1, 0, 0, 99_999, 100_000), 3);
     }
 
     private static void offerRefuses() {
@@ -85,6 +130,33 @@ public final class OffersTest {
         Due.gives("offer behind the option", x, x.offer(0, 0, 1, 1, 1, 0, 0, 13, 20), 3);
     }
 
+    /** "while one lasts (both counted), nobody else is OFFERED the BOOK" */
+    private static void optionsBarOffersWhileTheyLast() {
+        for (int minute = 8; minute <= 14; minute++) {
+            FairTables x = Fairs.withBooks(2, false, false);
+            x.option(0, 1, 10, 12);
+            boolean lasts = minute >= 10 && minute <= 12;
+            Due.is("offer at " + minute, x.offer(0, 0, 1, 1, 1, 0, 0, minute, 20), lasts ? -1 : 0);
+            Due.is("status()", x.status(), lasts ? 12 : 0);
+            Due.gives("offer to the one with the option", x, x.offer(0, 1, 1, 1, 1, 0, 0, minute, 20), lasts ? 0 : 1);
+            Due.gives("offer of another book", x, x.offer(1, 0, 1, 1, 1, 0, 0, minute, 20), lasts ? 1 : 2);
+        }
+    }
+
+    private static void optionsBarTakesWhileTheyLast() {
+        for (int minute = 8; minute <= 14; minute++) {
+            FairTables x = Fairs.withBooks(2, false);
+            x.offer(0, 0, 1, 1, 1, 0, 0, 5, 20);
+            x.offer(0, 1, 2, 1, 1, 0, 0, 5, 20);
+            x.option(0, 1, 10, 12);
+            boolean lasts = minute >= 10 && minute <= 12;
+            Due.is("take at " + minute, x.take(0, minute), lasts ? -1 : 0);
+            Due.is("status()", x.status(), lasts ? 12 : 0);
+            Due.gives("state of it", x, x.state(0, minute), lasts ? OPEN : TAKEN);
+            Due.gives("take by the one with the option", x, x.take(1, minute), lasts ? 0 : 1);
+        }
+    }
+
     private static void minutesNeverGoBack() {
         FairTables x = Fairs.withBooks(1, false);
         Due.gives("offer at 10", x, x.offer(0, 0, 1, 1, 1, 0, 0, 10, 90), 0);
@@ -117,6 +189,19 @@ public final class OffersTest {
         Due.gives("state of the other one", x, x.state(0, 6), ENDED);
         Due.gives("state of the taken one behind its end", x, x.state(1, 100_000), TAKEN);
         Due.none("take once more", x, x.take(1, 6), 13);
+    }
+
+    private static void takenAtTheLastMinute() {
+        FairTables x = Fairs.withBooks(1, false);
+        x.offer(0, 0, 1, 1, 1, 0, 0, 0, 100_000);
+        x.offer(0, 0, 2, 1, 1, 0, 0, 0, 99_999);
+        x.offer(0, 0, 4, 1, 1, 0, 0, 0, 1);
+        Due.gives("take at the minute it is", x, x.take(2, 0), 0);
+        Due.none("take at 100001", x, x.take(0, 100_001), 2);
+        Due.none("take at 100000 of one that ended at 99999", x, x.take(1, 100_000), 13);
+        Due.gives("take at 100000", x, x.take(0, 100_000), 1);
+        Due.none("state at 99999", x, x.state(1, 99_999), 3);
+        Due.gives("state at 100000", x, x.state(1, 100_000), ENDED);
     }
 
     private static void takeMakesAGrant() {
@@ -167,6 +252,27 @@ public final class OffersTest {
         Due.gives("another book", x, x.state(3, 12), OPEN);
     }
 
+    /** "and would CLASH now": one LAND, one TONGUE, one FORM and one day in both, and each of the four in one alone. */
+    private static void takeVoidsWithOneCellAndDayInBoth() {
+        int[][] others = {{6, 6, 6, 20, 30, VOID}, {6, 6, 6, 0, 10, VOID}, {5, 6, 6, 20, 30, OPEN}, {6, 5, 6, 20, 30, OPEN},
+            {6, 6, 5, 20, 30, OPEN}, {6, 6, 6, 21, 30, OPEN}, {6, 6, 6, 0, 9, OPEN}, {255, 15, 15, 0, 9_999, VOID},
+            {253, 15, 15, 0, 9_999, OPEN}, {255, 13, 15, 0, 9_999, OPEN}, {255, 15, 13, 0, 9_999, OPEN}};
+        FairTables x = Fairs.withBooks(2, false, false);
+        x.offer(0, 0, 2, 2, 2, 10, 20, 1, 50);
+        for (int i = 0; i < others.length; i++) {
+            int[] o = others[i];
+            Due.gives("offer", x, x.offer(0, 1, o[0], o[1], o[2], o[3], o[4], 1, 50), i + 1);
+        }
+        for (int[] o : others) {
+            x.offer(1, 1, o[0], o[1], o[2], o[3], o[4], 1, 50);
+        }
+        Due.gives("take(0, 1)", x, x.take(0, 1), 0);
+        for (int i = 0; i < others.length; i++) {
+            Due.gives("state of offer " + (i + 1), x, x.state(i + 1, 1), others[i][5]);
+            Due.gives("the same of another book", x, x.state(i + 1 + others.length, 1), OPEN);
+        }
+    }
+
     private static void takeVoidsEarlierOnes() {
         FairTables x = Fairs.withBooks(2, false);
         x.offer(0, 0, 1, 1, 1, 0, 5, 10, 50);
@@ -209,6 +315,29 @@ public final class OffersTest {
         Due.gives("state at 10", x, x.state(0, 10), OPEN);
     }
 
+    /** "13: it is not OPEN then": TAKEN, VOID and ENDED, each of them ahead of what comes behind it. */
+    private static void takeOfEachThatIsNotOpen() {
+        FairTables x = Fairs.withBooks(2, false);
+        x.offer(0, 0, 1, 1, 1, 0, 0, 0, 9);
+        x.offer(0, 1, 1, 1, 1, 0, 0, 0, 9);
+        x.offer(0, 1, 2, 1, 1, 0, 0, 0, 1);
+        x.offer(0, 1, 4, 1, 1, 0, 0, 0, 2);
+        Due.gives("take(0, 2)", x, x.take(0, 2), 0);
+        for (int full = 0; full < 2; full++) {
+            Due.none("take of a taken one", x, x.take(0, 2), 13);
+            Due.none("take of a void one", x, x.take(1, 2), 13);
+            Due.none("take of one that ended", x, x.take(2, 2), 13);
+            for (int day = 0; x.grant(0, 0, 8, 1, 1, day, day) >= 0; day++) {
+                continue;
+            }
+        }
+        Due.none("take of an open one with 60 grants", x, x.take(3, 2), 7);
+        Due.gives("a taken one", x, x.state(0, 2), TAKEN);
+        Due.gives("a void one", x, x.state(1, 2), VOID);
+        Due.gives("one that ended", x, x.state(2, 2), ENDED);
+        Due.gives("an open one", x, x.state(3, 2), OPEN);
+    }
+
     private static void takeNeedsThatTheyStillMay() {
         FairTables x = Fairs.withBooks(2, false, true);
         x.list(1, 0, true);
@@ -240,6 +369,33 @@ public final class OffersTest {
         Due.none("take(1, 1)", x, x.take(1, 1), 7);
         Due.none("grant", x, x.grant(0, 0, 8, 1, 1, 0, 0), 7);
         Due.gives("state(1, 1)", x, x.state(1, 1), OPEN);
+    }
+
+    /** "ENDED is an OPEN one at a minute behind its end"; TAKEN and VOID ones never are. */
+    private static void stateAtTheEdges() {
+        FairTables x = Fairs.withBooks(2, false);
+        x.offer(0, 0, 1, 1, 1, 0, 0, 10, 20);
+        x.offer(0, 1, 1, 1, 1, 0, 0, 10, 20);
+        x.offer(0, 1, 2, 1, 1, 0, 0, 10, 11);
+        x.offer(0, 1, 2, 1, 1, 0, 0, 10, 99_999);
+        int[][] due = {{10, OPEN, OPEN, OPEN, OPEN}, {11, OPEN, OPEN, OPEN, OPEN}, {12, OPEN, OPEN, ENDED, OPEN},
+            {20, OPEN, OPEN, ENDED, OPEN}, {21, ENDED, ENDED, ENDED, OPEN}, {99_999, ENDED, ENDED, ENDED, OPEN},
+            {100_000, ENDED, ENDED, ENDED, ENDED}};
+        states(x, due);
+        Due.gives("take(0, 20)", x, x.take(0, 20), 0);
+        Due.none("state(0, 19)", x, x.state(0, 19), 3);
+        states(x, new int[][] {{20, TAKEN, VOID, ENDED, OPEN}, {21, TAKEN, VOID, ENDED, OPEN},
+            {99_999, TAKEN, VOID, ENDED, OPEN}, {100_000, TAKEN, VOID, ENDED, ENDED}});
+        // state() does not move the minute: what it was is asked once more.
+        Due.gives("state(3, 20)", x, x.state(3, 20), OPEN);
+    }
+
+    private static void states(FairTables x, int[][] due) {
+        for (int[] row : due) {
+            for (int offer = 0; offer < 4; offer++) {
+                Due.gives("state(" + offer + ", " + row[0] + ")", x, x.state(offer, row[0]), row[offer + 1]);
+            }
+        }
     }
 
     private static void stateRefuses() {

@@ -1,3 +1,5 @@
+import java.math.BigInteger;
+
 /** Promises 14 to 24: BOOKS, lists, GRANTS, LEFT, OPTIONS and who MAY be OFFERED what. */
 public final class RightsTest {
     private static final int MIN = Integer.MIN_VALUE;
@@ -9,14 +11,22 @@ public final class RightsTest {
         secretBooksAreToldToTheirList();
         grantsComeToSixty();
         grantsClashInAllFourAlone();
+        eachLandTongueAndFormIsItsOwn();
+        grantsOnTheFirstAndTheLastDay();
+        grantsOfAllBooksAreSixty();
         grantRefuses();
         endFreesDays();
+        endOnTheEdges();
         endRefuses();
         hasTellsTheEditor();
         hasRefuses();
         leftIsAFraction();
+        leftOfAllCells();
+        leftHasNoCommonDivisor();
         leftRefuses();
         optionsBarOthers();
+        optionsOfOneMinute();
+        optionsOfAllBooksAreThirty();
         optionRefuses();
         mayNeedsAllThree();
         mayRefuses();
@@ -114,6 +124,64 @@ public final class RightsTest {
         Due.is("lower()", x.lower(), 1);
     }
 
+    /** "1 for LAND 0, 2 for 1 ..": one LAND, TONGUE or FORM CLASHES with itself and with no other one. */
+    private static void eachLandTongueAndFormIsItsOwn() {
+        for (int i = 0; i < 8; i++) {
+            FairTables x = Fairs.withBooks(1, false);
+            Due.gives("grant for land " + i, x, x.grant(0, 0, 1 << i, 15, 15, 3, 3), 0);
+            Due.gives("may for all lands but " + i, x, x.may(0, 0, 255 - (1 << i), 15, 15, 3, 3, 0), 1);
+            for (int j = 0; j < 8; j++) {
+                Due.gives("may for land " + j, x, x.may(0, 0, 1 << j, 15, 15, 3, 3, 0), i == j ? 0 : 1);
+                Due.is("has in land " + j, x.has(0, j, 0, 0, 3), i == j ? 0 : -1);
+            }
+        }
+        for (int i = 0; i < 4; i++) {
+            FairTables x = Fairs.withBooks(1, false, false);
+            Due.gives("grant for tongue " + i, x, x.grant(0, 0, 255, 1 << i, 15, 3, 3), 0);
+            Due.gives("grant for form " + i, x, x.grant(1, 0, 255, 15, 1 << i, 3, 3), 1);
+            Due.gives("may for all tongues but " + i, x, x.may(0, 0, 255, 15 - (1 << i), 15, 3, 3, 0), 1);
+            Due.gives("may for all forms but " + i, x, x.may(1, 0, 255, 15, 15 - (1 << i), 3, 3, 0), 1);
+            for (int j = 0; j < 4; j++) {
+                Due.gives("may for tongue " + j, x, x.may(0, 0, 255, 1 << j, 15, 3, 3, 0), i == j ? 0 : 1);
+                Due.gives("may for form " + j, x, x.may(1, 0, 255, 15, 1 << j, 3, 3, 0), i == j ? 0 : 1);
+                Due.is("has in tongue " + j, x.has(0, 0, j, 0, 3), i == j ? 0 : -1);
+                Due.is("has in form " + j, x.has(1, 0, 0, j, 3), i == j ? 0 : -1);
+            }
+        }
+    }
+
+    /** "from a day to a day (0 to 9,999)" */
+    private static void grantsOnTheFirstAndTheLastDay() {
+        FairTables x = Fairs.withBooks(2, false);
+        Due.gives("grant on day 0", x, x.grant(0, 0, 1, 1, 1, 0, 0), 0);
+        Due.gives("grant on day 9999", x, x.grant(0, 1, 1, 1, 1, 9_999, 9_999), 1);
+        Due.gives("has on day 0", x, x.has(0, 0, 0, 0, 0), 0);
+        Due.none("has on day 1", x, x.has(0, 0, 0, 0, 1), 9);
+        Due.none("has on day 9998", x, x.has(0, 0, 0, 0, 9_998), 9);
+        Due.gives("has on day 9999", x, x.has(0, 0, 0, 0, 9_999), 1);
+        Due.none("grant from day 0", x, x.grant(0, 0, 1, 1, 1, 0, 9_998), 10);
+        Due.none("grant to day 9999", x, x.grant(0, 0, 1, 1, 1, 1, 9_999), 10);
+        Due.gives("grant of all days between", x, x.grant(0, 0, 1, 1, 1, 1, 9_998), 2);
+        Due.none("grant from -1 to -1", x, x.grant(0, 0, 2, 1, 1, -1, -1), 2);
+        Due.none("grant from 10000 to 10000", x, x.grant(0, 0, 2, 1, 1, 10_000, 10_000), 2);
+        Due.none("grant from MIN to MAX", x, x.grant(0, 0, 2, 1, 1, MIN, MAX), 2);
+        Due.none("grant from MAX to MIN", x, x.grant(0, 0, 2, 1, 1, MAX, MIN), 2);
+        Due.gives("the next that is made", x, x.grant(0, 0, 2, 1, 1, 0, 9_999), 3);
+    }
+
+    /** "GRANTS, at most 60": of all BOOKS together, five of each. */
+    private static void grantsOfAllBooksAreSixty() {
+        FairTables x = Fairs.withBooks(1, new boolean[12]);
+        for (int g = 0; g < 60; g++) {
+            Due.gives("grant", x, x.grant(g % 12, 0, 1, 1, 1, g, g), g);
+        }
+        for (int book = 0; book < 12; book++) {
+            Due.none("a grant more of book " + book, x, x.grant(book, 0, 1, 1, 1, 99, 99), 7);
+        }
+        Due.done("end(59, 0)", x, x.end(59, 0));
+        Due.not("end(60, 0)", x, x.end(60, 0), 1);
+    }
+
     private static void grantRefuses() {
         FairTables x = Fairs.withBooks(1, false, true);
         for (int bad : new int[] {-1, 2, 12, MIN, MAX}) {
@@ -161,6 +229,36 @@ public final class RightsTest {
         Due.gives("has on day 20", x, x.has(0, 2, 0, 0, 20), 0);
         Due.none("has on day 21", x, x.has(0, 2, 0, 0, 21), 9);
         Due.gives("grant from 21", x, x.grant(0, 1, 4, 1, 1, 21, 30), 5);
+    }
+
+    /** "A GRANT is ended on a day: days from that on are free again" */
+    private static void endOnTheEdges() {
+        // From, one ahead of it, one behind it; to, one ahead of it, one behind it; the first day and the last.
+        int[] ends = {10, 9, 11, 20, 19, 21, 0, 9_999};
+        for (int end : ends) {
+            FairTables x = Fairs.withBooks(2, false);
+            Due.gives("grant from 10 to 20", x, x.grant(0, 1, 1, 1, 1, 10, 20), 0);
+            Due.done("end(0, " + end + ")", x, x.end(0, end));
+            for (int day = 8; day <= 22; day++) {
+                boolean sold = day >= 10 && day <= 20 && day < end;
+                Due.is("has on day " + day, x.has(0, 0, 0, 0, day), sold ? 1 : -1);
+                Due.gives("may on day " + day, x, x.may(0, 0, 1, 1, 1, day, day, 0), sold ? 0 : 1);
+                Due.done("left on day " + day, x, x.left(0, 1, 1, 1, day));
+                Due.is("upper() on day " + day, x.upper(), sold ? 0 : 1);
+            }
+            Due.not("end(0, " + end + ") once more", x, x.end(0, end), 8);
+        }
+        FairTables y = Fairs.withBooks(1, false);
+        y.grant(0, 0, 1, 1, 1, 0, 9_999);
+        Due.done("end(0, 9999)", y, y.end(0, 9_999));
+        Due.gives("has on day 9998", y, y.has(0, 0, 0, 0, 9_998), 0);
+        Due.none("has on day 9999", y, y.has(0, 0, 0, 0, 9_999), 9);
+        // One GRANT alone is ended.
+        y.grant(0, 0, 2, 1, 1, 0, 9_999);
+        y.grant(0, 0, 4, 1, 1, 0, 9_999);
+        Due.done("end(1, 0)", y, y.end(1, 0));
+        Due.none("has of the ended one", y, y.has(0, 1, 0, 0, 0), 9);
+        Due.gives("has of the next one", y, y.has(0, 2, 0, 0, 9_999), 0);
     }
 
     private static void endRefuses() {
@@ -255,6 +353,58 @@ public final class RightsTest {
         fraction(x, 1, 1);
     }
 
+    /** All 128 CELLS: none, one, all but one and all of them are sold. */
+    private static void leftOfAllCells() {
+        FairTables x = Fairs.withBooks(1, false);
+        x.left(0, 255, 15, 15, 9_999);
+        fraction(x, 1, 1);
+        x.grant(0, 0, 128, 8, 8, 9_999, 9_999);
+        x.left(0, 255, 15, 15, 9_999);
+        fraction(x, 127, 128);
+        x.left(0, 255, 15, 15, 9_998);
+        fraction(x, 1, 1);
+        x.left(0, 128, 8, 8, 9_999);
+        fraction(x, 0, 1);
+        x.left(0, 128, 8, 12, 9_999);
+        fraction(x, 1, 2);
+        x.grant(0, 0, 127, 15, 15, 9_999, 9_999);
+        x.left(0, 255, 15, 15, 9_999);
+        fraction(x, 15, 128);
+        x.grant(0, 0, 128, 7, 15, 9_999, 9_999);
+        x.left(0, 255, 15, 15, 9_999);
+        fraction(x, 3, 128);
+        x.grant(0, 0, 128, 8, 6, 9_999, 9_999);
+        x.left(0, 255, 15, 15, 9_999);
+        fraction(x, 1, 128);
+        x.left(0, 128, 8, 1, 9_999);
+        fraction(x, 1, 1);
+        x.grant(0, 0, 128, 8, 1, 9_999, 9_999);
+        x.left(0, 255, 15, 15, 9_999);
+        fraction(x, 0, 1);
+        x.left(0, 255, 15, 15, 0);
+        fraction(x, 1, 1);
+    }
+
+    /** "without a common divisor with the lower one": each number of LANDS, TONGUES and FORMS, and each sold. */
+    private static void leftHasNoCommonDivisor() {
+        for (int sold = 1; sold <= 8; sold++) {
+            FairTables x = Fairs.withBooks(1, false);
+            x.grant(0, 0, (1 << sold) - 1, 1, 3, 0, 0);
+            for (int lands = 1; lands <= 8; lands++) {
+                for (int tongues = 1; tongues <= 4; tongues++) {
+                    for (int forms = 1; forms <= 4; forms++) {
+                        long all = (long) lands * tongues * forms;
+                        long free = all - Math.min(lands, sold) * Math.min(2, forms);
+                        long divisor = BigInteger.valueOf(all).gcd(BigInteger.valueOf(free)).longValue();
+                        x.left(0, (1 << lands) - 1, (1 << tongues) - 1, (1 << forms) - 1, 0);
+                        Due.is("upper() of " + free + " by " + all, x.upper(), free / divisor);
+                        Due.is("lower() of " + free + " by " + all, x.lower(), all / divisor);
+                    }
+                }
+            }
+        }
+    }
+
     private static void leftRefuses() {
         FairTables x = Fairs.withBooks(1, false);
         x.grant(0, 0, 1, 1, 1, 0, 0);
@@ -294,6 +444,33 @@ public final class RightsTest {
         Due.done("option(1, 0, 0, 100000)", x, x.option(1, 0, 0, 100_000));
         Due.gives("may at 0", x, x.may(1, 1, 1, 1, 1, 0, 0, 0), 0);
         Due.gives("may at 100000", x, x.may(1, 1, 1, 1, 1, 0, 0, 100_000), 0);
+    }
+
+    /** "while one lasts (both counted), nobody else is OFFERED the BOOK": at the first and the last minute, too. */
+    private static void optionsOfOneMinute() {
+        for (int minute : new int[] {0, 1, 99_999, 100_000}) {
+            FairTables x = Fairs.withBooks(2, false);
+            Due.done("option of one minute", x, x.option(0, 1, minute, minute));
+            for (int at = Math.max(0, minute - 1); at <= Math.min(100_000, minute + 1); at++) {
+                Due.gives("may of another one at " + at, x, x.may(0, 0, 1, 1, 1, 0, 0, at), at == minute ? 0 : 1);
+                Due.gives("may of theirs at " + at, x, x.may(0, 1, 1, 1, 1, 0, 0, at), 1);
+            }
+        }
+    }
+
+    /** "OPTIONS, at most 30": of all BOOKS together, also when they last no more. */
+    private static void optionsOfAllBooksAreThirty() {
+        FairTables x = Fairs.withBooks(10, new boolean[12]);
+        for (int o = 0; o < 30; o++) {
+            Due.done("option " + o, x, x.option(o % 12, o % 10, 1, 2));
+        }
+        Due.gives("an offer that moves the minute", x, x.offer(0, 0, 1, 1, 1, 0, 0, 50, 60), 0);
+        for (int book = 0; book < 12; book++) {
+            Due.not("an option more of book " + book, x, x.option(book, 0, 0, 0), 7);
+        }
+        // Option 29 is the last of book 5, to editor 9; 5 and 17 are to editors 5 and 7.
+        Due.gives("may of editor 9", x, x.may(5, 9, 1, 1, 1, 0, 0, 2), 0);
+        Due.gives("may of nobody's minute", x, x.may(5, 9, 1, 1, 1, 0, 0, 3), 1);
     }
 
     private static void optionRefuses() {

@@ -6,12 +6,18 @@ public final class TraysTest {
 
     public static void main(String[] args) {
         newObject();
+        newObjectHasNobody();
         statusIsThatOfTheLatestCall();
         trayIsLaidOut();
+        trayIsLaidAnew();
         trayRefuses();
         writeCuts();
+        writeCutsAtTheEdges();
         writeAndReadRefuse();
         pourMovesNumbers();
+        pourOfAllPlaces();
+        pourOfEachSort();
+        pourToTheLastPlace();
         pourAsksInItsOrder();
         Due.end();
     }
@@ -36,6 +42,36 @@ public final class TraysTest {
         // Minute 0 is not gone.
         Due.gives("offer at minute 0", x, x.offer(0, 0, 1, 1, 1, 0, 0, 0, 1), 0);
         Due.is("NONE", FairTables.NONE, -1);
+    }
+
+    /** "TRAYS are MISSING, nobody there, no BOOKS; minute 0; the FRACTION 0 by 1; STATUS 0." */
+    private static void newObjectHasNobody() {
+        FairTables x = new FairTables();
+        Due.not("worth(0, 0, 1)", x, x.worth(0, 0, 1), 1);
+        Due.gives("agent()", x, x.agent(), 0);
+        Due.not("worth(0, 0, 1) without an editor", x, x.worth(0, 0, 1), 1);
+        Due.gives("editor()", x, x.editor(), 0);
+        Due.gives("best() without a worth", x, x.best(), 0);
+        Due.none("meets(0, 0) without a worth", x, x.meets(0, 0), 9);
+        Due.not("list(0, 0, true)", x, x.list(0, 0, true), 1);
+        Due.gives("hears(0, 0)", x, x.hears(0, 0), 0);
+        Due.none("grant of book 0", x, x.grant(0, 0, 1, 1, 1, 0, 0), 1);
+        Due.not("left of book 0", x, x.left(0, 1, 1, 1, 0), 1);
+        Due.is("upper() of what was never told", x.upper(), 0);
+        Due.is("lower() of what was never told", x.lower(), 1);
+        Due.not("option of book 0", x, x.option(0, 0, 0, 0), 1);
+        Due.none("may of book 0", x, x.may(0, 0, 1, 1, 1, 0, 0, 0), 1);
+        Due.none("offer of book 0", x, x.offer(0, 0, 1, 1, 1, 0, 0, 0, 1), 1);
+        Due.none("take(0, 0)", x, x.take(0, 0), 1);
+        for (int tray = 0; tray < 4; tray++) {
+            Due.not("write to a missing tray", x, x.write(tray, 0, 1), 4);
+            Due.not("pour of a missing tray", x, x.pour(tray, 0, tray, 0, 0), 4);
+            Due.none("auction with a missing tray", x, x.auction(tray, 0, -1, 0, 1), 4);
+        }
+        Due.none("sold(0)", x, x.sold(0), 9);
+        Due.gives("book(true)", x, x.book(true), 0);
+        Due.gives("hears of a list with nobody on it", x, x.hears(0, 0), 0);
+        Due.gives("the first grant", x, x.grant(0, 0, 1, 1, 1, 0, 0), 0);
     }
 
     private static void statusIsThatOfTheLatestCall() {
@@ -68,6 +104,36 @@ public final class TraysTest {
         Due.gives("read(0, 39)", x, x.read(0, 39), 0);
         Due.done("tray(3, 0, 0)", x, x.tray(3, 0, 0));
         Due.none("read(3, 0)", x, x.read(3, 0), 5);
+    }
+
+    /** "A TRAY is a row of so many numbers .., all 0", whatever it was. */
+    private static void trayIsLaidAnew() {
+        FairTables x = new FairTables();
+        for (int sort = 0; sort < 4; sort++) {
+            Due.done("tray(2, sort, 3)", x, x.tray(2, sort, 3));
+            row(x, 2, 0, 0, 0);
+            for (int place = 0; place < 3; place++) {
+                Due.done("write", x, x.write(2, place, -1));
+            }
+            Due.done("the same tray once more", x, x.tray(2, sort, 3));
+            row(x, 2, 0, 0, 0);
+            Due.done("write(2, 2, -1)", x, x.write(2, 2, -1));
+            Due.none("read(2, 3)", x, x.read(2, 3), 5);
+        }
+        // The new sort cuts, not the one that the tray had.
+        Due.done("write(2, 0, 300)", x, x.write(2, 0, 300));
+        Due.gives("300 in 64 bits", x, x.read(2, 0), 300);
+        Due.done("tray(2, 0, 1)", x, x.tray(2, 0, 1));
+        Due.done("write(2, 0, 300)", x, x.write(2, 0, 300));
+        Due.gives("300 in 8 bits", x, x.read(2, 0), 44);
+        // None at all, and one.
+        Due.none("read(2, 1) of one number", x, x.read(2, 1), 5);
+        Due.done("tray(2, 0, 0)", x, x.tray(2, 0, 0));
+        Due.none("read(2, 0) of no numbers", x, x.read(2, 0), 5);
+        Due.not("write(2, 0, 1) to no numbers", x, x.write(2, 0, 1), 5);
+        // It is no more MISSING, though it has no places.
+        Due.done("pour of no numbers", x, x.pour(2, 0, 2, 0, 0));
+        Due.not("pour of one number", x, x.pour(2, 0, 2, 0, 1), 5);
     }
 
     private static void trayRefuses() {
@@ -104,6 +170,41 @@ public final class TraysTest {
             Due.gives("32 bits of " + v, x, x.read(2, 0), (int) v);
             Due.gives("64 bits of " + v, x, x.read(3, 0), v);
         }
+    }
+
+    /** "numbers of 8 bits (sort 0), 16 (1), 32 (2) or 64 (3), with sign; what is written is cut to these" */
+    private static void writeCutsAtTheEdges() {
+        cut(0, 127, 127);
+        cut(0, 128, -128);
+        cut(0, -128, -128);
+        cut(0, -129, 127);
+        cut(0, 255, -1);
+        cut(0, 256, 0);
+        cut(1, 32_767, 32_767);
+        cut(1, 32_768, -32_768);
+        cut(1, -32_768, -32_768);
+        cut(1, -32_769, 32_767);
+        cut(1, 65_535, -1);
+        cut(1, 65_536, 0);
+        cut(2, 2_147_483_647L, 2_147_483_647L);
+        cut(2, 2_147_483_648L, -2_147_483_648L);
+        cut(2, -2_147_483_648L, -2_147_483_648L);
+        cut(2, -2_147_483_649L, 2_147_483_647L);
+        cut(2, 4_294_967_295L, -1);
+        cut(2, 4_294_967_296L, 0);
+        cut(3, 9_223_372_036_854_775_807L, 9_223_372_036_854_775_807L);
+        cut(3, -9_223_372_036_854_775_808L, -9_223_372_036_854_775_808L);
+    }
+
+    private static void cut(int sort, long v, long want) {
+        FairTables x = new FairTables();
+        x.tray(1, sort, 40);
+        for (int place : new int[] {0, 39}) {
+            Due.done("write of " + v, x, x.write(1, place, v));
+            Due.gives(v + " in sort " + sort, x, x.read(1, place), want);
+        }
+        Due.gives("the place beside it", x, x.read(1, 1), 0);
+        Due.gives("the place beside it", x, x.read(1, 38), 0);
     }
 
     private static void writeAndReadRefuse() {
@@ -159,6 +260,63 @@ public final class TraysTest {
         row(x, 1, 11, 12, 13, 14);
         Due.done("tray(3, 2, 0)", x, x.tray(3, 2, 0));
         Due.done("pour(3, 0, 3, 0, 0)", x, x.pour(3, 0, 3, 0, 0));
+    }
+
+    /** Forty places of a tray onto itself, by one place up and down, and onto another. */
+    private static void pourOfAllPlaces() {
+        FairTables x = new FairTables();
+        x.tray(0, 1, 40);
+        x.tray(3, 1, 40);
+        for (int place = 0; place < 40; place++) {
+            x.write(0, place, 100 + place);
+        }
+        Due.done("pour(0, 0, 3, 0, 40)", x, x.pour(0, 0, 3, 0, 40));
+        Due.not("pour(0, 0, 3, 0, 41)", x, x.pour(0, 0, 3, 0, 41), 5);
+        Due.not("pour(0, 1, 0, 0, 40)", x, x.pour(0, 1, 0, 0, 40), 5);
+        Due.not("pour(0, 0, 0, 1, 40)", x, x.pour(0, 0, 0, 1, 40), 5);
+        Due.done("pour(0, 0, 0, 1, 39)", x, x.pour(0, 0, 0, 1, 39));
+        Due.done("pour(3, 1, 3, 0, 39)", x, x.pour(3, 1, 3, 0, 39));
+        for (int place = 0; place < 40; place++) {
+            Due.gives("up by one", x, x.read(0, place), place == 0 ? 100 : 99 + place);
+            Due.gives("down by one", x, x.read(3, place), place == 39 ? 139 : 101 + place);
+        }
+    }
+
+    /** "come .. as they were": of each sort, also below 0; unlike sorts don't mix. */
+    private static void pourOfEachSort() {
+        long[] least = {-128, -32_768, MIN, Long.MIN_VALUE};
+        for (int sort = 0; sort < 4; sort++) {
+            FairTables x = new FairTables();
+            x.tray(0, sort, 2);
+            x.tray(1, sort, 2);
+            x.write(0, 0, least[sort]);
+            x.write(0, 1, least[sort] - 1);
+            Due.done("pour(0, 0, 1, 0, 2)", x, x.pour(0, 0, 1, 0, 2));
+            row(x, 1, least[sort], -1 - least[sort]);
+            row(x, 0, least[sort], -1 - least[sort]);
+            for (int other = 0; other < 4; other++) {
+                x.tray(2, other, 2);
+                boolean alike = other == sort;
+                Due.is("pour to sort " + other, x.pour(0, 0, 2, 0, 2), alike);
+                Due.is("status()", x.status(), alike ? 0 : 11);
+                Due.is("pour from sort " + other, x.pour(2, 0, 0, 0, 2), alike);
+                Due.is("status()", x.status(), alike ? 0 : 11);
+                // Unlike sorts are unlike for no numbers, too.
+                Due.is("pour of none to sort " + other, x.pour(0, 0, 2, 0, 0), alike);
+            }
+        }
+    }
+
+    private static void pourToTheLastPlace() {
+        FairTables x = poured();
+        Due.done("pour(0, 4, 1, 3, 1)", x, x.pour(0, 4, 1, 3, 1));
+        row(x, 1, 0, 0, 0, 14);
+        Due.not("pour(0, 5, 1, 3, 1)", x, x.pour(0, 5, 1, 3, 1), 5);
+        Due.not("pour(0, 4, 1, 4, 1)", x, x.pour(0, 4, 1, 4, 1), 5);
+        Due.done("pour(0, 0, 1, 0, 1)", x, x.pour(0, 0, 1, 0, 1));
+        row(x, 1, 10, 0, 0, 14);
+        Due.not("pour(0, -1, 1, -1, 0)", x, x.pour(0, -1, 1, 0, 0), 5);
+        Due.not("pour(0, 0, 1, -1, 0)", x, x.pour(0, 0, 1, -1, 0), 5);
     }
 
     private static void pourAsksInItsOrder() {
