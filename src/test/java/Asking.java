@@ -67,6 +67,7 @@ final class Asking {
     private final List<Fine> fines = new ArrayList<>();
     private int rank = 0;
     private int status = 0;
+    private int statusAgain = 0;
 
     Asking(String name, Supplier<FairTables> fair, Call call, int... numbers) {
         this.name = name;
@@ -122,6 +123,12 @@ final class Asking {
         return this;
     }
 
+    /** The STATUS when the same is asked again and again. */
+    Asking again(int due) {
+        statusAgain = due;
+        return this;
+    }
+
     /** The fair for the call; what comes later in the promise is done first, since 'full' bars all behind it. */
     FairTables fairWith(Fault... chosen) {
         Supplier<FairTables> from = fair;
@@ -149,21 +156,36 @@ final class Asking {
         return call.on(x, given);
     }
 
-    /** The STATUS of the call with each number that is fine, and with none changed. */
+    /** The call is done with each number that is fine, and with none changed. */
     void askFine() {
-        FairTables x = fair.get();
-        done("", x, call.on(x, numbers.clone()));
+        done("", refusedOnce(), numbers);
         for (Fine fine : fines) {
             int[] given = numbers.clone();
             given[fine.place] = fine.number;
-            x = fair.get();
-            done(" with number " + fine.place + " as " + fine.number, x, call.on(x, given));
+            done(" with number " + fine.place + " as " + fine.number, refusedOnce(), given);
         }
     }
 
-    private void done(String how, FairTables x, Object got) {
+    /** Its STATUS is 2, and must not stay so. */
+    private FairTables refusedOnce() {
+        FairTables x = fair.get();
+        x.hours(0);
+        return x;
+    }
+
+    private void done(String how, FairTables x, int[] given) {
+        Due.is(name + how + " is refused", call.on(x, given.clone()).equals(false), false);
         Due.is(name + how + ": status()", x.status(), 0);
-        Due.is(name + how + " is done", got.equals(false), false);
+    }
+
+    /** The same call so many times: the first is done, the last has the STATUS that is due then. */
+    void askAgain(int times) {
+        FairTables x = refusedOnce();
+        done("", x, numbers);
+        for (int i = 1; i < times; i++) {
+            call.on(x, numbers.clone());
+        }
+        Due.is(name + " asked " + times + " times: status()", x.status(), statusAgain);
     }
 
     /** The STATUS that is due when all these are wrong at once. */

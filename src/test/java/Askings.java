@@ -49,9 +49,9 @@ final class Askings {
 
     private static void addMeetings(List<Asking> all) {
         all.add(new Asking("agent", Fairs::rich, (x, n) -> x.agent())
-                .then(7).after("8 agents", Askings::fillAgents));
+                .again(7).then(7).after("8 agents", Fairs::fillAgents));
         all.add(new Asking("editor", Fairs::rich, (x, n) -> x.editor())
-                .then(7).after("10 editors", Askings::fillEditors));
+                .again(7).then(7).after("10 editors", Fairs::fillEditors));
         all.add(new Asking("hours", Fairs::rich, (x, n) -> x.hours(n[0]), 3).then(2).range(0, 1, 8));
         all.add(new Asking("worth", Fairs::rich, (x, n) -> x.worth(n[0], n[1], n[2]), 1, 2, 50)
                 .then(1).range(0, 0, 2).range(1, 0, 3).then(2).range(2, 0, 100));
@@ -68,44 +68,26 @@ final class Askings {
                 }));
     }
 
-    private static void fillAgents(FairTables x) {
-        while (x.agent() >= 0) {
-            continue;
-        }
-    }
-
-    private static void fillEditors(FairTables x) {
-        while (x.editor() >= 0) {
-            continue;
-        }
-    }
-
     private static FairTables withAll() {
         FairTables x = Fairs.rich();
-        fillAgents(x);
-        fillEditors(x);
+        Fairs.fillAgents(x);
+        Fairs.fillEditors(x);
         return x;
     }
 
     private static void addLists(List<Asking> all) {
         all.add(new Asking("book", Fairs::rich, (x, n) -> x.book(n[0] != 0), 0)
-                .then(7).fine(0, 1).after("12 books", Askings::fillBooks));
+                .again(7).then(7).fine(0, 1).after("12 books", Fairs::fillBooks));
         all.add(new Asking("book, secret", Fairs::rich, (x, n) -> x.book(true))
-                .then(7).after("12 books", Askings::fillBooks));
+                .again(7).then(7).after("12 books", Fairs::fillBooks));
         all.add(new Asking("list", Fairs::rich, (x, n) -> x.list(n[0], n[1], true), 2, 2)
-                .then(1).range(0, 0, 2).range(1, 0, 3)
+                .again(8).then(1).range(0, 0, 2).range(1, 0, 3)
                 .then(8).after("on it already", x -> x.list(2, 2, true)));
         all.add(new Asking("list no more", Askings::withFullLists, (x, n) -> x.list(n[0], n[1], false), 2, 2)
-                .then(1).range(0, 0, 2).range(1, 0, 3)
+                .again(8).then(1).range(0, 0, 2).range(1, 0, 3)
                 .then(8).after("off it already", x -> x.list(2, 2, false)));
         all.add(new Asking("hears", Fairs::rich, (x, n) -> x.hears(n[0], n[1]), 0, 1)
                 .then(1).range(1, 0, 3).fine(0, -1, 1, 2, 3, 12, MIN, MAX));
-    }
-
-    private static void fillBooks(FairTables x) {
-        while (x.book(false) >= 0) {
-            continue;
-        }
     }
 
     private static FairTables withFullLists() {
@@ -126,11 +108,11 @@ final class Askings {
 
     private static void addGrants(List<Asking> all) {
         Asking grant = new Asking("grant", Fairs::rich, (x, n) -> x.grant(n[0], n[1], n[2], n[3], n[4], n[5], n[6]),
-                0, 3, 4, 2, 2, 5, 7).then(1).range(0, 0, 2).range(1, 0, 3).then(2);
+                0, 3, 4, 2, 2, 5, 7).again(10).then(1).range(0, 0, 2).range(1, 0, 3).then(2);
         all.add(rights(grant, 2).then(7).after("60 grants", Fairs::fillGrants)
                 .then(10).after("a clash", Askings::clash));
         all.add(new Asking("end", Fairs::rich, (x, n) -> x.end(n[0], n[1]), 2, 7)
-                .then(1).range(0, 0, 3).then(2).range(1, 0, 9_999)
+                .again(8).then(1).range(0, 0, 3).then(2).range(1, 0, 9_999)
                 .then(8).wrong(0, 1).after("ended", x -> x.end(2, 8)));
         all.add(new Asking("has", Askings::withAllSold, (x, n) -> x.has(n[0], n[1], n[2], n[3], n[4]), 3, 2, 1, 1, 50)
                 .then(1).wrong(0, -1, 4, MIN, MAX)
@@ -154,7 +136,7 @@ final class Askings {
 
     private static void addOptions(List<Asking> all) {
         all.add(new Asking("option", Fairs::rich, (x, n) -> x.option(n[0], n[1], n[2], n[3]), 0, 3, 30, 33)
-                .then(1).range(0, 0, 2).range(1, 0, 3)
+                .again(7).then(1).range(0, 0, 2).range(1, 0, 3)
                 .then(2).range(2, 0, 33).range(3, 30, 100_000).wrong(2, 100_001)
                 .then(7).after("30 options", Fairs::fillOptions));
         Asking may = new Asking("may", Fairs::rich, (x, n) -> x.may(n[0], n[1], n[2], n[3], n[4], n[5], n[6], n[7]),
@@ -193,7 +175,7 @@ final class Askings {
     private static void addOffers(List<Asking> all) {
         Asking offer = new Asking("offer", Fairs::rich,
                 (x, n) -> x.offer(n[0], n[1], n[2], n[3], n[4], n[5], n[6], n[7], n[8]), 0, 3, 4, 2, 2, 5, 7, 20, 30)
-                .then(1).least(0, 0).fine(0, 1).wrong(0, 3, MAX).range(1, 0, 3).then(2);
+                .again(7).then(1).least(0, 0).fine(0, 1).wrong(0, 3, MAX).range(1, 0, 3).then(2);
         all.add(rights(offer, 2).wrong(7, -1, MIN).most(7, 29).wrong(7, 100_001)
                 .fine(8, 21).wrong(8, 0, -1, MIN).most(8, 100_000)
                 .then(3).wrong(7, 9, 0).fine(7, 10)
@@ -201,14 +183,14 @@ final class Askings {
                 .then(12).wrong(0, 2).after("a clash", Askings::clash)
                 .after("an option of another one", x -> x.option(0, 1, 0, 100_000)));
         all.add(new Asking("offer of a new fair", () -> Fairs.withBooks(1, false),
-                (x, n) -> x.offer(0, 0, 1, 1, 1, 0, 0, n[0], n[1]), 20, 30).then(2).range(0, 0, 29).range(1, 21, 100_000));
+                (x, n) -> x.offer(0, 0, 1, 1, 1, 0, 0, n[0], n[1]), 20, 30).again(7).then(2).range(0, 0, 29).range(1, 21, 100_000));
         all.add(new Asking("state", Fairs::rich, (x, n) -> x.state(n[0], n[1]), 3, 20)
                 .then(1).range(0, 0, 5).then(2).wrong(1, -1, MIN).most(1, 100_000).then(3).wrong(1, 9, 0).fine(1, 10));
     }
 
     private static void addTakes(List<Asking> all) {
         all.add(new Asking("take", Fairs::rich, (x, n) -> x.take(n[0], n[1]), 3, 20)
-                .then(1).wrong(0, -1, 6, MIN, MAX).fine(0, 4, 5)
+                .again(13).then(1).wrong(0, -1, 6, MIN, MAX).fine(0, 4, 5)
                 .then(2).wrong(1, -1, 100_001, MIN, MAX)
                 .then(3).wrong(1, 9, 0).fine(1, 10)
                 .then(13).wrong(0, 0, 1, 2).wrong(1, 41, 100_000).fine(1, 40)
@@ -216,13 +198,13 @@ final class Askings {
                 .then(12).after("a clash", x -> x.grant(0, 1, 48, 4, 4, 5, 9))
                 .after("an option of another one", x -> x.option(0, 1, 0, 100_000)));
         all.add(new Asking("take of a secret book's", Fairs::rich, (x, n) -> x.take(n[0], n[1]), 4, 20)
-                .then(1).wrong(0, 6)
+                .again(13).then(1).wrong(0, 6)
                 .then(2).wrong(1, -1)
                 .then(3).wrong(1, 9)
                 .then(13).wrong(0, 2).wrong(1, 41)
                 .then(7).after("60 grants", Fairs::fillGrants)
                 .then(12).after("not on the list", x -> x.list(1, 0, false)));
         all.add(new Asking("take at the last minute", Fairs::rich, (x, n) -> x.take(n[0], n[1]), 5, 20)
-                .then(2).most(1, 100_000));
+                .again(13).then(2).most(1, 100_000));
     }
 }

@@ -1,5 +1,8 @@
-/** Fairs to begin a test with. */
+/** Fairs to begin a test with, and ways to fill them. */
 final class Fairs {
+    // Far above all that a fair has room for: a fair that never says that it is full is found, not waited for.
+    private static final int MOST_TRIED = 99;
+
     private Fairs() {
     }
 
@@ -58,8 +61,9 @@ final class Fairs {
         x.write(0, 2, 40);
         x.write(0, 9, -7);
         x.tray(1, 2, 5);
+        x.write(1, 4, 14);
         x.tray(2, 2, 4);
-        for (int place = 0; place < 5; place++) {
+        for (int place = 0; place < 4; place++) {
             x.write(1, place, 10 + place);
             x.write(2, place, 20 + place);
         }
@@ -75,23 +79,43 @@ final class Fairs {
         x.offer(0, 0, 64, 4, 4, 0, 5, 10, 100_000);
     }
 
+    /** One more of something; whether there was room for it. */
+    interface OneMore {
+        boolean on(FairTables x, int tried);
+    }
+
+    /** How many more there was room for. */
+    static int fill(FairTables x, OneMore one) {
+        int many = 0;
+        while (many < MOST_TRIED && one.on(x, many)) {
+            many++;
+        }
+        return many;
+    }
+
     /** All GRANTS that can still be made, each of a day of its own in a CELL of book 2 that nothing else uses. */
     static void fillGrants(FairTables x) {
-        for (int day = 0; x.grant(2, 0, 128, 8, 8, day, day) >= 0; day++) {
-            continue;
-        }
+        fill(x, (y, day) -> y.grant(2, 0, 128, 8, 8, day, day) >= 0);
     }
 
     static void fillOptions(FairTables x) {
-        while (x.option(1, 3, 70, 70)) {
-            continue;
-        }
+        fill(x, (y, i) -> y.option(1, 3, 70, 70));
     }
 
     /** All OFFERS that can still be made, at minute 10. */
     static void fillOffers(FairTables x) {
-        while (x.offer(1, 0, 128, 8, 8, 0, 0, 10, 11) >= 0) {
-            continue;
-        }
+        fill(x, (y, i) -> y.offer(1, 0, 128, 8, 8, 0, 0, 10, 11) >= 0);
+    }
+
+    static void fillAgents(FairTables x) {
+        fill(x, (y, i) -> y.agent() >= 0);
+    }
+
+    static void fillEditors(FairTables x) {
+        fill(x, (y, i) -> y.editor() >= 0);
+    }
+
+    static void fillBooks(FairTables x) {
+        fill(x, (y, i) -> y.book(false) >= 0);
     }
 }

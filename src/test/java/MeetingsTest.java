@@ -11,6 +11,7 @@ public final class MeetingsTest {
         worthIsUpToAHundred();
         bestIsTheMostWorth();
         bestIsTheFirstOfSeveral();
+        bestOfEqualWorthsIsTheFirst();
         nobodyIsInMoreThanThereAreHours();
         anAgentIsInAsManyAsThereAreHours();
         anEditorIsInAsManyAsThereAreHours();
@@ -20,6 +21,7 @@ public final class MeetingsTest {
         laidToTheLastHour();
         laidWithAChain();
         laidWithALongChain();
+        laidWhereAChainMadeRoom();
         bestChangesWithWhatIsSaid();
         meetsAndAtRefuse();
         Due.end();
@@ -175,6 +177,25 @@ public final class MeetingsTest {
         hours(w, new int[][] {{-1, 0, -1}, {-1, -1, -1}});
     }
 
+    /** All WORTHS alike: with n HALF HOURS the first n agents meet the first n editors, the next the next ones. */
+    private static void bestOfEqualWorthsIsTheFirst() {
+        for (int hours = 1; hours <= 5; hours++) {
+            FairTables x = Fairs.withHours(8, 10, hours);
+            for (int a = 0; a < 8; a++) {
+                for (int e = 0; e < 10; e++) {
+                    x.worth(a, e, 3);
+                }
+            }
+            Due.gives("best()", x, x.best(), 24 * hours);
+            for (int a = 0; a < 8; a++) {
+                for (int e = 0; e < 10; e++) {
+                    x.meets(a, e);
+                    Due.is("meets(" + a + ", " + e + "): status()", x.status(), a / hours == e / hours ? 0 : 9);
+                }
+            }
+        }
+    }
+
     private static void nobodyIsInMoreThanThereAreHours() {
         FairTables x = Fairs.withHours(8, 10, 3);
         for (int a = 0; a < 8; a++) {
@@ -328,6 +349,20 @@ public final class MeetingsTest {
         FairTables w = Fairs.withHours(3, 4, 2);
         worths(w, new int[][] {{0, 1, 0, 1}, {0, 1, 1, 0}, {1, 0, 0, 1}});
         hours(w, new int[][] {{-1, 1, -1, 0}, {-1, 0, 1, -1}, {0, -1, -1, 1}});
+    }
+
+    private static void laidWhereAChainMadeRoom() {
+        // (0, 1) 0, (0, 2) 1, (1, 0) 0, (1, 2) at 1 by a chain that moves (0, 2) to 0 and (0, 1) to 1: so editor 1
+        // is free at 0, where (2, 1) comes.
+        FairTables x = Fairs.withHours(3, 3, 2);
+        worths(x, new int[][] {{0, 1, 1}, {1, 0, 1}, {0, 1, 0}});
+        hours(x, new int[][] {{-1, 1, 0}, {0, -1, 1}, {-1, 0, -1}});
+        Due.gives("at(2, 0)", x, x.at(2, 0), 1);
+        // (0, 3) 0, (3, 1) 1, and (3, 3) at 0 by a chain that moves (0, 3) to 1: so agent 0 is free at 0.
+        FairTables y = Fairs.withHours(4, 4, 2);
+        worths(y, new int[][] {{0, 0, 0, 1}, {1, 0, 0, 0}, {1, 1, 0, 0}, {0, 1, 0, 1}});
+        Due.none("at(0, 0)", y, y.at(0, 0), 9);
+        Due.gives("at(0, 1)", y, y.at(0, 1), 3);
     }
 
     private static void bestChangesWithWhatIsSaid() {

@@ -327,9 +327,7 @@ public final class OffersTest {
             Due.none("take of a taken one", x, x.take(0, 2), 13);
             Due.none("take of a void one", x, x.take(1, 2), 13);
             Due.none("take of one that ended", x, x.take(2, 2), 13);
-            for (int day = 0; x.grant(0, 0, 8, 1, 1, day, day) >= 0; day++) {
-                continue;
-            }
+            Fairs.fill(x, (y, day) -> y.grant(0, 0, 8, 1, 1, day, day) >= 0);
         }
         Due.none("take of an open one with 60 grants", x, x.take(3, 2), 7);
         Due.gives("a taken one", x, x.state(0, 2), TAKEN);

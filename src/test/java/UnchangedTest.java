@@ -156,22 +156,10 @@ public final class UnchangedTest {
 
     /** How many more there is room for. */
     private static void askRooms(FairTables x, List<Long> answers) {
-        int options = 0;
-        while (x.option(0, 0, 0, 0)) {
-            options++;
-        }
-        int grants = 0;
-        while (x.grant(0, 0, 128, 1, 1, grants, grants) >= 0) {
-            grants++;
-        }
-        int offers = 0;
-        while (x.offer(0, 0, 128, 2, 1, 0, 0, 100, 101) >= 0) {
-            offers++;
-        }
-        int books = 0;
-        while (x.book(false) >= 0) {
-            books++;
-        }
+        int options = Fairs.fill(x, (y, i) -> y.option(0, 0, 0, 0));
+        int grants = Fairs.fill(x, (y, day) -> y.grant(0, 0, 128, 1, 1, day, day) >= 0);
+        int offers = Fairs.fill(x, (y, i) -> y.offer(0, 0, 128, 2, 1, 0, 0, 100, 101) >= 0);
+        int books = Fairs.fill(x, (y, i) -> y.book(false) >= 0);
         answers.addAll(Arrays.asList((long) options, (long) grants, (long) offers, (long) books));
     }
 }
