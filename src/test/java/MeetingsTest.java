@@ -358,6 +358,12 @@ public final class MeetingsTest {
         worths(x, new int[][] {{0, 1, 1}, {1, 0, 1}, {0, 1, 0}});
         hours(x, new int[][] {{-1, 1, 0}, {0, -1, 1}, {-1, 0, -1}});
         Due.gives("at(2, 0)", x, x.at(2, 0), 1);
+        // (0, 2) 0, (0, 3) 1, (1, 1) 0, (1, 3) at 1 by a chain that moves (0, 3) to 0 and (0, 2) to 1; (2, 0) 0; then
+        // (2, 2): a is 1, and b is 0, where the chain left editor 2 free: (0, 2) to 0, (0, 3) to 1, (1, 3) to 0,
+        // (1, 1) to 1, and (2, 2) is at 1.
+        FairTables z = Fairs.withHours(3, 4, 2);
+        worths(z, new int[][] {{0, 0, 1, 1}, {0, 1, 0, 1}, {1, 0, 1, 0}});
+        hours(z, new int[][] {{-1, -1, 0, 1}, {-1, 1, -1, 0}, {0, -1, 1, -1}});
         // (0, 3) 0, (3, 1) 1, and (3, 3) at 0 by a chain that moves (0, 3) to 1: so agent 0 is free at 0.
         FairTables y = Fairs.withHours(4, 4, 2);
         worths(y, new int[][] {{0, 0, 0, 1}, {1, 0, 0, 0}, {1, 1, 0, 0}, {0, 1, 0, 1}});
